@@ -340,6 +340,8 @@ public final class PromisesTest {
         CHECKS.refused(x, "a ninth loan, fewer coins", () -> x.lend(1, 0, 6), NOT_POSSIBLE);
         CHECKS.refused(x, "a ninth loan to itself", () -> x.lend(0, 0, 1), INVALID);
         due("all coins", x.count(4), 10019);
+        CHECKS.undone(x, "a change with 8 loans", () -> x.give(0, 1), x.oracleOf(0, 2) + 1);
+        due("gain with 8 loans", x.gain(0, 0, 1), 0);
     }
 
     private static void branchWithoutBet() {
@@ -401,6 +403,14 @@ public final class PromisesTest {
         z.set(1, 0);
         due("no cut", z.branch(0, 0), 50);
         purses(z, 25, 0, 175);
+        z.set(0, 33);
+        z.set(1, 3);
+        z.give(0, 500);
+        due("0.99 coins of a cut", z.branch(0, 1), 33);
+        purses(z, 25, 533, 142);
+        z.set(1, 4);
+        due("1.32 coins of a cut", z.branch(0, 1), 33);
+        purses(z, 26, 565, 109);
         BranchBets u = rivals(500, 500);
         u.set(0, 19);
         due("the cut is rounded down", u.branch(0, 1), 19);
@@ -451,6 +461,14 @@ public final class PromisesTest {
         due("what is owed", y.loanOf(0, 2), 5);
         due("a creditor keeps what it is paid", y.loanOf(1, 2), 10);
 
+        y.set(0, 3);
+        y.set(2, 33);
+        due("branch", y.branch(0, 1), 3);
+        due("0.99 coins for creditors", y.loanOf(0, 2), 5);
+        y.set(2, 34);
+        due("branch", y.branch(0, 1), 3);
+        due("1.02 coins for creditors", y.loanOf(0, 2), 4);
+
         BranchBets z = rivals(50, 50);
         z.oracle(0, 0, 50);
         z.set(2, 100);
@@ -466,6 +484,7 @@ public final class PromisesTest {
     private static void branchRuins() {
         about("promise 8, ruin");
         BranchBets x = rivals(50, 5);
+        CHECKS.undone(x, "branch", () -> x.branch(0, 1), 5);
         due("branch", x.branch(0, 1), 5);
         due("ruins", x.oracleOf(1, 8), 1);
         due("ruins of the other one", x.oracleOf(0, 8), 0);
@@ -886,6 +905,9 @@ public final class PromisesTest {
         y.oracle(0, 1, 0);
         y.seat(0, 0);
         due("ruined", y.odds(0), NOT_FOUND);
+        y.give(0, 1);
+        due("one coin", y.odds(0), 0x3F800000);
+        y.undo();
         y.give(0, 3);
         y.oracle(0, 0, 100);
         y.seat(1, 0);
@@ -1016,6 +1038,10 @@ public final class PromisesTest {
             final int what = i;
             CHECKS.read(x, "count(" + i + ")", () -> x.count(what), i - 9);
         }
+        BranchBets y = new BranchBets();
+        y.oracle(0, 0, 0);
+        y.oracle(1, 0, 0);
+        due("all are ruined", y.count(2), 2);
         int[] wrong = {-1, 11, 12, 19, 23, MIN, MAX};
         for (int each : wrong) {
             CHECKS.refused(x, "count(" + each + ")", () -> x.count(each), INVALID);
@@ -1145,6 +1171,16 @@ public final class PromisesTest {
         faultOf("tak 1 1;", 0, 1, 0);
         faultOf("taken 1 1;", 0, 1, 0);
         faultOf("takecut 1 1;", 0, 1, 0);
+        for (String word : new String[] {"bake", "tame", "take", "skid", "zkip", "flap", "noop", "loopz", "taket"}) {
+            faultOf(word + " 1 1,", 0, 1, word.equals("take") ? 8 : 0);
+        }
+        faultOf("but 1;", 0, 1, 0);
+        faultOf("cat 1;", 0, 1, 0);
+        faultOf("cup 1;", 0, 1, 0);
+        faultOf("take`1 1;", 0, 1, 4);
+        faultOf("take{1 1;", 0, 1, 4);
+        faultOf("take / 1;", 0, 1, 5);
+        faultOf("take : 1;", 0, 1, 5);
         faultOf("Take 1 1;", 0, 1, 0);
         faultOf("1 1;", 0, 1, 0);
         faultOf("take", 0, 1, 4);
@@ -1216,18 +1252,21 @@ public final class PromisesTest {
         due("history", x.count(5), 28);
         due("flip", played(x, "flip 2 3;"), 3);
         due("history", x.count(5), (28 * 8 + 5) & 255);
+        due("flip of five", played(x, "flip 2 5;"), 5);
+        due("history", x.count(5) & 31, 21);
+        due("counter", x.counter(0, 2), 3);
         due("flip of one", played(x, "flip 2 1;"), 1);
         due("history", x.count(5) & 3, 3);
         due("loop", played(x, "loop 2 4;"), 4);
         due("history", x.count(5) & 15, 14);
         due("loop of one", played(x, "loop 2 1;"), 1);
         due("history", x.count(5) & 3, 0);
-        due("branches", x.count(6), 14);
+        due("branches", x.count(6), 19);
         due("the text stays", x.count(10), 9);
         due("play again", x.play(), 1);
         due("40 of them", played(x, "take 0 40;skip 63 40;"), 80);
         due("history", x.count(5), 0);
-        due("branches", x.count(6), 95);
+        due("branches", x.count(6), 100);
         due("aliases", x.aliases(0, 31), 1);
         due("cut", played(x, "cut 33;"), 0);
         due("the cut", x.count(21), 33);
