@@ -2,14 +2,9 @@ import java.util.function.IntSupplier;
 
 /** Counts checks, prints those that fail, and ends the test with exit code 1 if there was one. */
 final class Checks {
-    private final String name;
     private String about = "";
     private int passed = 0;
     private int failed = 0;
-
-    Checks(String name) {
-        this.name = name;
-    }
 
     void about(String what) {
         about = what;
@@ -29,31 +24,29 @@ final class Checks {
     }
 
     /** The call answers with this error, and nothing that can be seen has changed. */
-    void refused(BranchBets x, String call, IntSupplier run, int error) {
-        String before = Snapshot.of(x);
-        due(call, run.getAsInt(), error);
-        that(call + " is refused but changes something", Snapshot.of(x).equals(before));
+    void refused(Run x, String call, IntSupplier made, int error) {
+        read(x, call, made, error);
     }
 
     /** The call answers so, is one change, and undo restores all that can be seen. */
-    void undone(BranchBets x, String call, IntSupplier run, int want) {
-        String before = Snapshot.ofState(x);
+    void undone(Run x, String call, IntSupplier made, int want) {
+        String before = View.ofState(x);
         int states = x.count(9);
-        due(call, run.getAsInt(), want);
+        due(call, made.getAsInt(), want);
         due(call + ": states behind it", x.count(9), Math.min(4, states + 1));
         due(call + ": undo", x.undo(), Math.min(4, states + 1) - 1);
-        that(call + " is not undone whole", Snapshot.ofState(x).equals(before));
+        that(call + " is not undone whole", View.ofState(x).equals(before));
     }
 
     /** The call answers so and nothing that can be seen has changed. */
-    void read(BranchBets x, String call, IntSupplier run, int want) {
-        String before = Snapshot.of(x);
-        due(call, run.getAsInt(), want);
-        that(call + " changes something", Snapshot.of(x).equals(before));
+    void read(Run x, String call, IntSupplier made, int want) {
+        String before = View.ofAll(x);
+        due(call, made.getAsInt(), want);
+        that(call + " changes something", View.ofAll(x).equals(before));
     }
 
     void end() {
-        System.out.println(name + ": " + passed + " passed, " + failed + " failed");
+        System.out.println(passed + " passed, " + failed + " failed");
         if (failed != 0 || passed == 0) {
             System.exit(1);
         }

@@ -17,7 +17,7 @@ import java.util.regex.Pattern;
 /** The face of the class, and of the rules of LANGUAGE.md those that can be told from its source and its members. */
 public final class LanguageTest {
     private static final Path SOURCE = Path.of("src/main/java/BranchBets.java");
-    private static final Checks CHECKS = new Checks("LanguageTest");
+    private static final Checks CHECKS = new Checks();
 
     private static final String[] FACE = {
         "set 2", "oracle 3", "seat 2", "stand 1", "give 2", "lend 3", "branch 2", "oracleOf 2", "counter 2",

@@ -4,13 +4,13 @@ import java.util.List;
 /** Runs of calls on new objects, each answer compared with the one of the model. The runs are always the same. */
 public final class ModelTest {
     private static final int RUNS = 1500;
-    private static final int CALLS = 512;
+    private static final int MOST_CALLS_OF_A_STEP = 20;
     private static final String[] WORDS = {"take", "skip", "flip", "loop"};
     private static final int[] ODD = {-1, -2, 6, 7, 64, 100000, Integer.MIN_VALUE, Integer.MAX_VALUE};
-    private static final Checks CHECKS = new Checks("ModelTest");
+    private static final Checks CHECKS = new Checks();
 
     private long seed;
-    private final BranchBets program = new BranchBets();
+    private final Run program = new Run();
     private final Model model = new Model();
     private final List<String> calls = new ArrayList<>();
     private boolean same = true;
@@ -37,7 +37,7 @@ public final class ModelTest {
         for (int i = 0; i < oracles; i++) {
             seat();
         }
-        while (same && calls.size() < CALLS) {
+        while (same && program.callsLeft() >= MOST_CALLS_OF_A_STEP) {
             call(purse);
         }
         CHECKS.that("differs from the model: " + calls, same);

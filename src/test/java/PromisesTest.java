@@ -1,14 +1,5 @@
 /** Each promise of the document by itself: ordinary inputs, its edges, and wrong inputs. */
-public final class PromisesTest {
-    private static final int INVALID = -1000001;
-    private static final int NOT_POSSIBLE = -1000002;
-    private static final int LIMIT = -1000003;
-    private static final int NOT_FOUND = -1000004;
-    private static final int MIN = Integer.MIN_VALUE;
-    private static final int MAX = Integer.MAX_VALUE;
-
-    private static final Checks CHECKS = new Checks("PromisesTest");
-
+public final class PromisesTest extends TestBase {
     private PromisesTest() {
     }
 
@@ -52,50 +43,6 @@ public final class PromisesTest {
         CHECKS.end();
     }
 
-    // ---- helpers
-
-    private static void about(String what) {
-        CHECKS.about(what);
-    }
-
-    private static void due(String call, long got, long want) {
-        CHECKS.due(call, got, want);
-    }
-
-    private static void write(BranchBets x, String text) {
-        x.clearText();
-        for (char character : text.toCharArray()) {
-            x.type(character);
-        }
-    }
-
-    private static void purses(BranchBets x, int house, int... wanted) {
-        due("coins of the house", x.count(3), house);
-        for (int i = 0; i < wanted.length; i++) {
-            due("purse of " + i, x.oracleOf(i, 2), wanted[i]);
-        }
-    }
-
-    /** Oracle 0 always says 1, oracle 1 always says 0; both sit in booth 0. */
-    private static BranchBets rivals(int firstPurse, int secondPurse) {
-        BranchBets x = new BranchBets();
-        x.oracle(0, 1, firstPurse);
-        x.oracle(0, 0, secondPurse);
-        x.seat(0, 0);
-        x.seat(1, 0);
-        return x;
-    }
-
-    private static void branches(BranchBets x, int address, String ways) {
-        for (char way : ways.toCharArray()) {
-            x.branch(address, way - '0');
-        }
-    }
-
-    private static int bits(int part, int whole) {
-        return Float.floatToIntBits((float) part / (float) whole);
-    }
-
     // ---- the promises
 
     private static void constants() {
@@ -108,7 +55,7 @@ public final class PromisesTest {
 
     private static void newObject() {
         about("promise 1");
-        BranchBets x = new BranchBets();
+        Run x = new Run();
         for (int what = 0; what <= 10; what++) {
             due("count " + what, x.count(what), 0);
         }
@@ -121,40 +68,40 @@ public final class PromisesTest {
         due("odds", x.odds(0), NOT_FOUND);
         due("fault", x.fault(0), NOT_FOUND);
         due("undo", x.undo(), NOT_POSSIBLE);
-        BranchBets other = new BranchBets();
+        Run other = new Run();
         x.oracle(0, 0, 9);
         x.set(0, 9);
         x.type('a');
         due("oracles of another object", other.count(0), 0);
         due("unit of another object", other.count(20), 5);
         due("text of another object", other.count(10), 0);
-        due("unit of a later object", new BranchBets().count(20), 5);
+        due("unit of a later object", new Run().count(20), 5);
     }
 
     private static void set() {
         about("promise 2");
-        BranchBets x = new BranchBets();
+        Run x = new Run();
         int[] least = {1, 0, 0};
         int[] most = {50, 50, 100};
         int[] first = {5, 10, 50};
         for (int what = 0; what < 3; what++) {
             final int w = what;
-            CHECKS.undone(x, "set", () -> x.set(w, least[w]), first[w]);
+            undone(x, "set", () -> x.set(w, least[w]), first[w]);
             due("set " + what + " to its least", x.set(what, least[what]), first[what]);
             due("the setting", x.count(20 + what), least[what]);
             due("set " + what + " to its most", x.set(what, most[what]), least[what]);
             due("the setting", x.count(20 + what), most[what]);
             due("set " + what + " to the same", x.set(what, most[what]), most[what]);
-            CHECKS.refused(x, "below", () -> x.set(w, least[w] - 1), INVALID);
-            CHECKS.refused(x, "above", () -> x.set(w, most[w] + 1), INVALID);
-            CHECKS.refused(x, "far below", () -> x.set(w, MIN), INVALID);
-            CHECKS.refused(x, "far above", () -> x.set(w, MAX), INVALID);
+            refused(x, "below", () -> x.set(w, least[w] - 1), INVALID);
+            refused(x, "above", () -> x.set(w, most[w] + 1), INVALID);
+            refused(x, "far below", () -> x.set(w, MIN), INVALID);
+            refused(x, "far above", () -> x.set(w, MAX), INVALID);
         }
-        CHECKS.refused(x, "set(-1)", () -> x.set(-1, 5), INVALID);
-        CHECKS.refused(x, "set(3)", () -> x.set(3, 5), INVALID);
-        CHECKS.refused(x, "set(MAX)", () -> x.set(MAX, 5), INVALID);
-        CHECKS.refused(x, "set(MIN)", () -> x.set(MIN, 5), INVALID);
-        BranchBets y = new BranchBets();
+        refused(x, "set(-1)", () -> x.set(-1, 5), INVALID);
+        refused(x, "set(3)", () -> x.set(3, 5), INVALID);
+        refused(x, "set(MAX)", () -> x.set(MAX, 5), INVALID);
+        refused(x, "set(MIN)", () -> x.set(MIN, 5), INVALID);
+        Run y = new Run();
         y.set(2, 50);
         due("a set to the same value is a change", y.count(9), 1);
     }
@@ -163,9 +110,9 @@ public final class PromisesTest {
         about("promise 3");
         int[] most = {1, 5, 5, 5, 0};
         for (int kind = 0; kind <= 4; kind++) {
-            BranchBets x = new BranchBets();
+            Run x = new Run();
             final int k = kind;
-            CHECKS.undone(x, "oracle", () -> x.oracle(k, most[k], 9999), 0);
+            undone(x, "oracle", () -> x.oracle(k, most[k], 9999), 0);
             due("oracle", x.oracle(kind, most[kind], 9999), 0);
             due("oracle", x.oracle(kind, 0, 0), 1);
             due("its kind", x.oracleOf(0, 0), kind);
@@ -174,28 +121,28 @@ public final class PromisesTest {
             due("its booth", x.oracleOf(0, 3), NOT_FOUND);
             due("its counters", x.counter(0, 0), kind >= 1 && kind <= 3 ? 1 : NOT_FOUND);
             due("the last of its counters", x.counter(0, 31), kind >= 1 && kind <= 3 ? 1 : NOT_FOUND);
-            CHECKS.refused(x, "number above", () -> x.oracle(k, most[k] + 1, 5), INVALID);
-            CHECKS.refused(x, "number below", () -> x.oracle(k, -1, 5), INVALID);
-            CHECKS.refused(x, "number far below", () -> x.oracle(k, MIN, 5), INVALID);
-            CHECKS.refused(x, "purse above", () -> x.oracle(k, 0, 10000), INVALID);
-            CHECKS.refused(x, "purse below", () -> x.oracle(k, 0, -1), INVALID);
+            refused(x, "number above", () -> x.oracle(k, most[k] + 1, 5), INVALID);
+            refused(x, "number below", () -> x.oracle(k, -1, 5), INVALID);
+            refused(x, "number far below", () -> x.oracle(k, MIN, 5), INVALID);
+            refused(x, "purse above", () -> x.oracle(k, 0, 10000), INVALID);
+            refused(x, "purse below", () -> x.oracle(k, 0, -1), INVALID);
         }
-        BranchBets x = new BranchBets();
-        CHECKS.refused(x, "kind below", () -> x.oracle(-1, 0, 5), INVALID);
-        CHECKS.refused(x, "kind above", () -> x.oracle(5, 0, 5), INVALID);
-        CHECKS.refused(x, "kind far above", () -> x.oracle(MAX, 0, 5), INVALID);
+        Run x = new Run();
+        refused(x, "kind below", () -> x.oracle(-1, 0, 5), INVALID);
+        refused(x, "kind above", () -> x.oracle(5, 0, 5), INVALID);
+        refused(x, "kind far above", () -> x.oracle(MAX, 0, 5), INVALID);
         for (int i = 0; i < 6; i++) {
             due("oracle", x.oracle(i % 5, 0, i), i);
         }
-        CHECKS.refused(x, "a seventh", () -> x.oracle(0, 0, 5), LIMIT);
-        CHECKS.refused(x, "a seventh of no kind", () -> x.oracle(5, 0, 5), INVALID);
-        CHECKS.refused(x, "a seventh with no such number", () -> x.oracle(0, 2, 5), INVALID);
-        CHECKS.refused(x, "a seventh with no such purse", () -> x.oracle(0, 0, -1), INVALID);
+        refused(x, "a seventh", () -> x.oracle(0, 0, 5), LIMIT);
+        refused(x, "a seventh of no kind", () -> x.oracle(5, 0, 5), INVALID);
+        refused(x, "a seventh with no such number", () -> x.oracle(0, 2, 5), INVALID);
+        refused(x, "a seventh with no such purse", () -> x.oracle(0, 0, -1), INVALID);
     }
 
     private static void oracleAfterUndo() {
         about("promise 3, an oracle in the place of one that was undone");
-        BranchBets x = rivals(10, 100);
+        Run x = rivals(10, 100);
         due("oracle", x.oracle(1, 0, 5), 2);
         x.seat(2, 1);
         x.set(0, 10);
@@ -217,42 +164,42 @@ public final class PromisesTest {
 
     private static void seat() {
         about("promise 4");
-        BranchBets x = new BranchBets();
+        Run x = new Run();
         for (int kind = 0; kind <= 4; kind++) {
             x.oracle(kind, 0, 10);
         }
         x.oracle(0, 1, 0);
         for (int i = 1; i <= 4; i++) {
             final int oracle = i;
-            CHECKS.refused(x, "booth 0 for kind " + i, () -> x.seat(oracle, 0), NOT_POSSIBLE);
+            refused(x, "booth 0 for kind " + i, () -> x.seat(oracle, 0), NOT_POSSIBLE);
         }
-        CHECKS.refused(x, "booth 1 for kind 0", () -> x.seat(0, 1), NOT_POSSIBLE);
-        CHECKS.refused(x, "booth 1 for kind 4", () -> x.seat(4, 1), NOT_POSSIBLE);
+        refused(x, "booth 1 for kind 0", () -> x.seat(0, 1), NOT_POSSIBLE);
+        refused(x, "booth 1 for kind 4", () -> x.seat(4, 1), NOT_POSSIBLE);
         for (int i = 0; i <= 4; i++) {
             final int oracle = i;
-            CHECKS.undone(x, "booth 2 for kind " + i, () -> x.seat(oracle, 2), 1);
+            undone(x, "booth 2 for kind " + i, () -> x.seat(oracle, 2), 1);
             if (i >= 1 && i <= 3) {
-                CHECKS.undone(x, "booth 1 for kind " + i, () -> x.seat(oracle, 1), 1);
+                undone(x, "booth 1 for kind " + i, () -> x.seat(oracle, 1), 1);
             }
         }
-        CHECKS.undone(x, "booth 0 for kind 0", () -> x.seat(0, 0), 1);
-        CHECKS.refused(x, "booth -1", () -> x.seat(0, -1), INVALID);
-        CHECKS.refused(x, "booth 3", () -> x.seat(0, 3), INVALID);
-        CHECKS.refused(x, "oracle -1", () -> x.seat(-1, 0), INVALID);
-        CHECKS.refused(x, "oracle 6", () -> x.seat(6, 0), INVALID);
-        CHECKS.refused(x, "oracle MAX", () -> x.seat(MAX, 0), INVALID);
+        undone(x, "booth 0 for kind 0", () -> x.seat(0, 0), 1);
+        refused(x, "booth -1", () -> x.seat(0, -1), INVALID);
+        refused(x, "booth 3", () -> x.seat(0, 3), INVALID);
+        refused(x, "oracle -1", () -> x.seat(-1, 0), INVALID);
+        refused(x, "oracle 6", () -> x.seat(6, 0), INVALID);
+        refused(x, "oracle MAX", () -> x.seat(MAX, 0), INVALID);
         due("seat", x.seat(5, 0), 1);
         due("seat", x.seat(0, 0), 2);
         due("the first one's seat", x.oracleOf(5, 4), 0);
         due("the second one's seat", x.oracleOf(0, 4), 1);
         due("its booth", x.oracleOf(0, 3), 0);
-        CHECKS.refused(x, "one who sits, in a full booth", () -> x.seat(0, 0), NOT_POSSIBLE);
-        CHECKS.refused(x, "one who sits, elsewhere", () -> x.seat(0, 2), NOT_POSSIBLE);
-        CHECKS.refused(x, "one who sits, in no booth", () -> x.seat(0, 3), INVALID);
-        CHECKS.refused(x, "wrong kind, full booth", () -> x.seat(1, 0), NOT_POSSIBLE);
+        refused(x, "one who sits, in a full booth", () -> x.seat(0, 0), NOT_POSSIBLE);
+        refused(x, "one who sits, elsewhere", () -> x.seat(0, 2), NOT_POSSIBLE);
+        refused(x, "one who sits, in no booth", () -> x.seat(0, 3), INVALID);
+        refused(x, "wrong kind, full booth", () -> x.seat(1, 0), NOT_POSSIBLE);
         due("seat", x.seat(2, 1), 1);
         due("seat", x.seat(3, 1), 2);
-        CHECKS.refused(x, "full booth", () -> x.seat(1, 1), LIMIT);
+        refused(x, "full booth", () -> x.seat(1, 1), LIMIT);
         due("stand", x.stand(2), 1);
         due("seat", x.seat(1, 1), 2);
         due("the lowest free seat", x.oracleOf(1, 4), 0);
@@ -264,17 +211,17 @@ public final class PromisesTest {
 
     private static void stand() {
         about("promise 5");
-        BranchBets x = rivals(10, 10);
+        Run x = rivals(10, 10);
         x.oracle(2, 0, 10);
         x.seat(2, 2);
-        CHECKS.undone(x, "stand", () -> x.stand(2), 2);
+        undone(x, "stand", () -> x.stand(2), 2);
         due("stand", x.stand(2), 2);
         due("its booth", x.oracleOf(2, 3), NOT_FOUND);
         due("its seat", x.oracleOf(2, 4), NOT_FOUND);
-        CHECKS.refused(x, "stand again", () -> x.stand(2), NOT_POSSIBLE);
-        CHECKS.refused(x, "stand(3)", () -> x.stand(3), INVALID);
-        CHECKS.refused(x, "stand(-1)", () -> x.stand(-1), INVALID);
-        CHECKS.refused(x, "stand(MAX)", () -> x.stand(MAX), INVALID);
+        refused(x, "stand again", () -> x.stand(2), NOT_POSSIBLE);
+        refused(x, "stand(3)", () -> x.stand(3), INVALID);
+        refused(x, "stand(-1)", () -> x.stand(-1), INVALID);
+        refused(x, "stand(MAX)", () -> x.stand(MAX), INVALID);
         due("stand", x.stand(0), 0);
         due("the other one's seat", x.oracleOf(1, 4), 1);
         due("seat", x.seat(0, 0), 2);
@@ -283,34 +230,34 @@ public final class PromisesTest {
 
     private static void give() {
         about("promise 6");
-        BranchBets x = new BranchBets();
+        Run x = new Run();
         x.oracle(0, 1, 9999);
-        CHECKS.undone(x, "give", () -> x.give(0, 1), 10000);
+        undone(x, "give", () -> x.give(0, 1), 10000);
         due("give", x.give(0, 1), 10000);
         for (int i = 2; i <= 9; i++) {
             due("give", x.give(0, 9999), 10000 + (i - 1) * 9999);
         }
-        CHECKS.refused(x, "give too much", () -> x.give(0, 9999 + 10), INVALID);
+        refused(x, "give too much", () -> x.give(0, 9999 + 10), INVALID);
         due("give", x.give(0, 9999), 99991);
-        CHECKS.refused(x, "above 100000", () -> x.give(0, 10), LIMIT);
+        refused(x, "above 100000", () -> x.give(0, 10), LIMIT);
         due("up to 100000", x.give(0, 9), 100000);
-        CHECKS.refused(x, "above 100000", () -> x.give(0, 1), LIMIT);
-        CHECKS.refused(x, "give 0", () -> x.give(0, 0), INVALID);
-        CHECKS.refused(x, "give 10000", () -> x.give(0, 10000), INVALID);
-        CHECKS.refused(x, "give MIN", () -> x.give(0, MIN), INVALID);
-        CHECKS.refused(x, "give MAX", () -> x.give(0, MAX), INVALID);
-        CHECKS.refused(x, "give to 1", () -> x.give(1, 5), INVALID);
-        CHECKS.refused(x, "give to -1", () -> x.give(-1, 5), INVALID);
+        refused(x, "above 100000", () -> x.give(0, 1), LIMIT);
+        refused(x, "give 0", () -> x.give(0, 0), INVALID);
+        refused(x, "give 10000", () -> x.give(0, 10000), INVALID);
+        refused(x, "give MIN", () -> x.give(0, MIN), INVALID);
+        refused(x, "give MAX", () -> x.give(0, MAX), INVALID);
+        refused(x, "give to 1", () -> x.give(1, 5), INVALID);
+        refused(x, "give to -1", () -> x.give(-1, 5), INVALID);
         due("the house", x.count(3), 0);
     }
 
     private static void lend() {
         about("promise 7");
-        BranchBets x = new BranchBets();
+        Run x = new Run();
         x.oracle(0, 1, 9999);
         x.oracle(1, 0, 20);
         x.oracle(4, 0, 0);
-        CHECKS.undone(x, "lend", () -> x.lend(0, 2, 9999), 0);
+        undone(x, "lend", () -> x.lend(0, 2, 9999), 0);
         due("lend all", x.lend(1, 2, 20), 0);
         purses(x, 0, 9999, 0, 20);
         due("ruined", x.count(2), 1);
@@ -320,34 +267,34 @@ public final class PromisesTest {
         due("loan 1, debtor", x.loanOf(1, 1), 1);
         due("loan 1, owed", x.loanOf(1, 2), 7);
         due("loan 0, creditor", x.loanOf(0, 0), 1);
-        CHECKS.refused(x, "fewer coins", () -> x.lend(1, 0, 8), NOT_POSSIBLE);
-        CHECKS.refused(x, "to itself", () -> x.lend(0, 0, 5), INVALID);
-        CHECKS.refused(x, "to itself, fewer coins", () -> x.lend(1, 1, 50), INVALID);
-        CHECKS.refused(x, "creditor 3", () -> x.lend(3, 0, 5), INVALID);
-        CHECKS.refused(x, "creditor -1", () -> x.lend(-1, 0, 5), INVALID);
-        CHECKS.refused(x, "debtor 3", () -> x.lend(0, 3, 5), INVALID);
-        CHECKS.refused(x, "debtor -1", () -> x.lend(0, -1, 5), INVALID);
-        CHECKS.refused(x, "0 coins", () -> x.lend(0, 1, 0), INVALID);
-        CHECKS.refused(x, "10000 coins", () -> x.lend(0, 1, 10000), INVALID);
-        CHECKS.refused(x, "10000 coins of one who has not so many", () -> x.lend(1, 0, 10000), INVALID);
-        CHECKS.refused(x, "MIN coins", () -> x.lend(0, 1, MIN), INVALID);
+        refused(x, "fewer coins", () -> x.lend(1, 0, 8), NOT_POSSIBLE);
+        refused(x, "to itself", () -> x.lend(0, 0, 5), INVALID);
+        refused(x, "to itself, fewer coins", () -> x.lend(1, 1, 50), INVALID);
+        refused(x, "creditor 3", () -> x.lend(3, 0, 5), INVALID);
+        refused(x, "creditor -1", () -> x.lend(-1, 0, 5), INVALID);
+        refused(x, "debtor 3", () -> x.lend(0, 3, 5), INVALID);
+        refused(x, "debtor -1", () -> x.lend(0, -1, 5), INVALID);
+        refused(x, "0 coins", () -> x.lend(0, 1, 0), INVALID);
+        refused(x, "10000 coins", () -> x.lend(0, 1, 10000), INVALID);
+        refused(x, "10000 coins of one who has not so many", () -> x.lend(1, 0, 10000), INVALID);
+        refused(x, "MIN coins", () -> x.lend(0, 1, MIN), INVALID);
         due("lend all again", x.lend(1, 0, 7), 2);
         for (int i = 3; i < 8; i++) {
             due("lend", x.lend(0, 1, 1), i);
         }
         due("loans", x.count(8), 8);
-        CHECKS.refused(x, "a ninth loan", () -> x.lend(0, 1, 1), LIMIT);
-        CHECKS.refused(x, "a ninth loan, fewer coins", () -> x.lend(1, 0, 6), NOT_POSSIBLE);
-        CHECKS.refused(x, "a ninth loan to itself", () -> x.lend(0, 0, 1), INVALID);
+        refused(x, "a ninth loan", () -> x.lend(0, 1, 1), LIMIT);
+        refused(x, "a ninth loan, fewer coins", () -> x.lend(1, 0, 6), NOT_POSSIBLE);
+        refused(x, "a ninth loan to itself", () -> x.lend(0, 0, 1), INVALID);
         due("all coins", x.count(4), 10019);
-        CHECKS.undone(x, "a change with 8 loans", () -> x.give(0, 1), x.oracleOf(0, 2) + 1);
+        undone(x, "a change with 8 loans", () -> x.give(0, 1), x.oracleOf(0, 2) + 1);
         due("gain with 8 loans", x.gain(0, 0, 1), 0);
     }
 
     private static void branchWithoutBet() {
         about("promise 8, no bet");
-        BranchBets x = new BranchBets();
-        CHECKS.undone(x, "branch", () -> x.branch(63, 1), 0);
+        Run x = new Run();
+        undone(x, "branch", () -> x.branch(63, 1), 0);
         due("branch", x.branch(63, 1), 0);
         due("history", x.count(5), 1);
         due("branches", x.count(6), 1);
@@ -365,7 +312,7 @@ public final class PromisesTest {
         due("all say the same and are right", x.branch(0, 1), 0);
         due("bets while the table learnt", x.count(7), 2);
         due("branches", x.count(6), 7);
-        BranchBets y = rivals(50, 0);
+        Run y = rivals(50, 0);
         due("the other one is ruined", y.branch(0, 1), 0);
         due("the other one is ruined", y.branch(0, 0), 0);
         purses(y, 0, 50, 0);
@@ -378,7 +325,7 @@ public final class PromisesTest {
 
     private static void branchSharesStakes() {
         about("promise 8, bets");
-        BranchBets x = rivals(100, 100);
+        Run x = rivals(100, 100);
         x.oracle(1, 0, 100);
         x.oracle(1, 0, 100);
         x.seat(2, 1);
@@ -390,12 +337,12 @@ public final class PromisesTest {
         due("the cut", x.branch(0, 1), 25);
         purses(x, 4, 113, 97, 93, 93);
         due("bets", x.count(7), 3);
-        CHECKS.undone(x, "branch", () -> x.branch(9, 1), 15);
-        BranchBets y = rivals(3, 100);
+        undone(x, "branch", () -> x.branch(9, 1), 15);
+        Run y = rivals(3, 100);
         y.set(0, 50);
         due("a stake is at most the purse", y.branch(0, 0), 3);
         purses(y, 0, 0, 103);
-        BranchBets z = rivals(100, 100);
+        Run z = rivals(100, 100);
         z.set(0, 50);
         z.set(1, 50);
         due("half of it for the house", z.branch(0, 0), 50);
@@ -411,7 +358,7 @@ public final class PromisesTest {
         z.set(1, 4);
         due("1.32 coins of a cut", z.branch(0, 1), 33);
         purses(z, 26, 565, 109);
-        BranchBets u = rivals(500, 500);
+        Run u = rivals(500, 500);
         u.set(0, 19);
         due("the cut is rounded down", u.branch(0, 1), 19);
         purses(u, 1, 518, 481);
@@ -419,7 +366,7 @@ public final class PromisesTest {
 
     private static void branchPaysCreditors() {
         about("promise 8, loans");
-        BranchBets x = rivals(20, 100);
+        Run x = rivals(20, 100);
         x.oracle(1, 0, 100);
         x.oracle(0, 0, 50);
         x.seat(2, 1);
@@ -428,7 +375,7 @@ public final class PromisesTest {
         x.lend(3, 0, 9);
         x.lend(1, 2, 2);
         purses(x, 0, 34, 98, 101, 37);
-        CHECKS.undone(x, "branch", () -> x.branch(0, 1), 10);
+        undone(x, "branch", () -> x.branch(0, 1), 10);
         due("branch", x.branch(0, 1), 10);
         purses(x, 1, 39, 93, 96, 41);
         due("loans", x.count(8), 3);
@@ -451,7 +398,7 @@ public final class PromisesTest {
         due("branch", x.branch(0, 1), 5);
         due("nothing for creditors", x.loanOf(0, 2), 8);
 
-        BranchBets y = rivals(50, 50);
+        Run y = rivals(50, 50);
         y.oracle(0, 0, 50);
         y.set(2, 100);
         y.lend(1, 0, 10);
@@ -469,7 +416,7 @@ public final class PromisesTest {
         due("branch", y.branch(0, 1), 3);
         due("1.02 coins for creditors", y.loanOf(0, 2), 4);
 
-        BranchBets z = rivals(50, 50);
+        Run z = rivals(50, 50);
         z.oracle(0, 0, 50);
         z.set(2, 100);
         z.lend(2, 0, 1);
@@ -483,8 +430,8 @@ public final class PromisesTest {
 
     private static void branchRuins() {
         about("promise 8, ruin");
-        BranchBets x = rivals(50, 5);
-        CHECKS.undone(x, "branch", () -> x.branch(0, 1), 5);
+        Run x = rivals(50, 5);
+        undone(x, "branch", () -> x.branch(0, 1), 5);
         due("branch", x.branch(0, 1), 5);
         due("ruins", x.oracleOf(1, 8), 1);
         due("ruins of the other one", x.oracleOf(0, 8), 0);
@@ -497,14 +444,14 @@ public final class PromisesTest {
         due("wrong", x.oracleOf(1, 6), 2);
 
         about("promise 8, emptied and filled again");
-        BranchBets y = rivals(50, 15);
+        Run y = rivals(50, 15);
         y.lend(1, 0, 10);
         due("branch", y.branch(0, 1), 5);
         purses(y, 0, 63, 2);
         due("ruins", y.oracleOf(1, 8), 0);
 
         about("promise 8, a ruined creditor");
-        BranchBets z = rivals(50, 50);
+        Run z = rivals(50, 50);
         z.oracle(1, 0, 10);
         z.seat(2, 1);
         z.lend(2, 0, 10);
@@ -519,7 +466,7 @@ public final class PromisesTest {
 
     private static void branchRecords() {
         about("promise 8, records");
-        BranchBets x = rivals(9999, 9999);
+        Run x = rivals(9999, 9999);
         x.set(0, 1);
         branches(x, 7, "1101");
         due("record", x.oracleOf(0, 7), 13);
@@ -543,7 +490,7 @@ public final class PromisesTest {
 
     private static void branchTeaches() {
         about("promise 8, counters");
-        BranchBets x = new BranchBets();
+        Run x = new Run();
         x.oracle(1, 5, 0);
         x.oracle(2, 2, 10);
         x.oracle(3, 3, 10);
@@ -570,7 +517,7 @@ public final class PromisesTest {
         due("history", x.count(5), 57);
         branches(x, 0, "111");
         due("history modulo 256", x.count(5), (57 * 8 + 7) & 255);
-        BranchBets y = new BranchBets();
+        Run y = new Run();
         y.oracle(1, 0, 5);
         y.branch(1, 0);
         y.branch(2, 0);
@@ -584,19 +531,19 @@ public final class PromisesTest {
 
     private static void branchErrors() {
         about("promise 8, errors");
-        BranchBets x = rivals(50, 50);
-        CHECKS.refused(x, "address 64", () -> x.branch(64, 1), INVALID);
-        CHECKS.refused(x, "address -1", () -> x.branch(-1, 1), INVALID);
-        CHECKS.refused(x, "address MAX", () -> x.branch(MAX, 1), INVALID);
-        CHECKS.refused(x, "taken 2", () -> x.branch(0, 2), INVALID);
-        CHECKS.refused(x, "taken -1", () -> x.branch(0, -1), INVALID);
+        Run x = rivals(50, 50);
+        refused(x, "address 64", () -> x.branch(64, 1), INVALID);
+        refused(x, "address -1", () -> x.branch(-1, 1), INVALID);
+        refused(x, "address MAX", () -> x.branch(MAX, 1), INVALID);
+        refused(x, "taken 2", () -> x.branch(0, 2), INVALID);
+        refused(x, "taken -1", () -> x.branch(0, -1), INVALID);
         due("address 63", x.branch(63, 0), 5);
         due("address 0", x.branch(0, 1), 5);
     }
 
     private static void oracleOf() {
         about("promise 9");
-        BranchBets x = rivals(50, 50);
+        Run x = rivals(50, 50);
         x.oracle(3, 4, 77);
         x.oracle(4, 0, 1);
         x.lend(0, 1, 3);
@@ -605,7 +552,7 @@ public final class PromisesTest {
         int[] all = {3, 4, 72, NOT_FOUND, NOT_FOUND, 0, 0, 0, 0, 0, 5};
         for (int i = 0; i < all.length; i++) {
             final int what = i;
-            CHECKS.read(x, "oracleOf(2, " + i + ")", () -> x.oracleOf(2, what), all[i]);
+            read(x, "oracleOf(2, " + i + ")", () -> x.oracleOf(2, what), all[i]);
         }
         due("booth", x.oracleOf(1, 3), 0);
         due("seat", x.oracleOf(1, 4), 1);
@@ -613,12 +560,12 @@ public final class PromisesTest {
         due("is owed", x.oracleOf(1, 10), 7);
         due("owes", x.oracleOf(0, 9), 7);
         due("is owed", x.oracleOf(0, 10), 3);
-        CHECKS.refused(x, "what -1", () -> x.oracleOf(0, -1), INVALID);
-        CHECKS.refused(x, "what 11", () -> x.oracleOf(0, 11), INVALID);
-        CHECKS.refused(x, "what MAX", () -> x.oracleOf(2, MAX), INVALID);
-        CHECKS.refused(x, "oracle -1", () -> x.oracleOf(-1, 0), INVALID);
-        CHECKS.refused(x, "oracle 4", () -> x.oracleOf(4, 3), INVALID);
-        CHECKS.refused(x, "oracle MIN", () -> x.oracleOf(MIN, 3), INVALID);
+        refused(x, "what -1", () -> x.oracleOf(0, -1), INVALID);
+        refused(x, "what 11", () -> x.oracleOf(0, 11), INVALID);
+        refused(x, "what MAX", () -> x.oracleOf(2, MAX), INVALID);
+        refused(x, "oracle -1", () -> x.oracleOf(-1, 0), INVALID);
+        refused(x, "oracle 4", () -> x.oracleOf(4, 3), INVALID);
+        refused(x, "oracle MIN", () -> x.oracleOf(MIN, 3), INVALID);
         x.seat(2, 2);
         due("booth", x.oracleOf(2, 3), 2);
         due("seat", x.oracleOf(2, 4), 0);
@@ -628,40 +575,40 @@ public final class PromisesTest {
         about("promise 10");
         for (int kind = 1; kind <= 3; kind++) {
             for (int number = 0; number <= 5; number++) {
-                BranchBets x = new BranchBets();
+                Run x = new Run();
                 x.oracle(kind, number, 0);
                 due("the last one", x.counter(0, (1 << number) - 1), 1);
                 due("behind the last one", x.counter(0, 1 << number), NOT_FOUND);
             }
         }
-        BranchBets x = new BranchBets();
+        Run x = new Run();
         x.oracle(1, 5, 5);
         x.oracle(0, 1, 5);
         x.oracle(4, 0, 5);
-        CHECKS.read(x, "counter", () -> x.counter(0, 7), 1);
-        CHECKS.refused(x, "index -1", () -> x.counter(0, -1), INVALID);
-        CHECKS.refused(x, "index MIN", () -> x.counter(0, MIN), INVALID);
-        CHECKS.refused(x, "index MAX", () -> x.counter(0, MAX), NOT_FOUND);
-        CHECKS.refused(x, "no table", () -> x.counter(1, 0), NOT_FOUND);
-        CHECKS.refused(x, "no table", () -> x.counter(2, 0), NOT_FOUND);
-        CHECKS.refused(x, "no table, index -1", () -> x.counter(1, -1), INVALID);
-        CHECKS.refused(x, "oracle 3", () -> x.counter(3, 0), INVALID);
-        CHECKS.refused(x, "oracle -1", () -> x.counter(-1, 0), INVALID);
+        read(x, "counter", () -> x.counter(0, 7), 1);
+        refused(x, "index -1", () -> x.counter(0, -1), INVALID);
+        refused(x, "index MIN", () -> x.counter(0, MIN), INVALID);
+        refused(x, "index MAX", () -> x.counter(0, MAX), NOT_FOUND);
+        refused(x, "no table", () -> x.counter(1, 0), NOT_FOUND);
+        refused(x, "no table", () -> x.counter(2, 0), NOT_FOUND);
+        refused(x, "no table, index -1", () -> x.counter(1, -1), INVALID);
+        refused(x, "oracle 3", () -> x.counter(3, 0), INVALID);
+        refused(x, "oracle -1", () -> x.counter(-1, 0), INVALID);
     }
 
     private static void loanOf() {
         about("promise 11");
-        BranchBets x = rivals(50, 50);
-        CHECKS.refused(x, "no loan", () -> x.loanOf(0, 0), INVALID);
+        Run x = rivals(50, 50);
+        refused(x, "no loan", () -> x.loanOf(0, 0), INVALID);
         x.lend(1, 0, 9);
-        CHECKS.read(x, "creditor", () -> x.loanOf(0, 0), 1);
-        CHECKS.read(x, "debtor", () -> x.loanOf(0, 1), 0);
-        CHECKS.read(x, "owed", () -> x.loanOf(0, 2), 9);
-        CHECKS.refused(x, "what 3", () -> x.loanOf(0, 3), INVALID);
-        CHECKS.refused(x, "what -1", () -> x.loanOf(0, -1), INVALID);
-        CHECKS.refused(x, "loan 1", () -> x.loanOf(1, 0), INVALID);
-        CHECKS.refused(x, "loan -1", () -> x.loanOf(-1, 0), INVALID);
-        CHECKS.refused(x, "loan MAX", () -> x.loanOf(MAX, 0), INVALID);
+        read(x, "creditor", () -> x.loanOf(0, 0), 1);
+        read(x, "debtor", () -> x.loanOf(0, 1), 0);
+        read(x, "owed", () -> x.loanOf(0, 2), 9);
+        refused(x, "what 3", () -> x.loanOf(0, 3), INVALID);
+        refused(x, "what -1", () -> x.loanOf(0, -1), INVALID);
+        refused(x, "loan 1", () -> x.loanOf(1, 0), INVALID);
+        refused(x, "loan -1", () -> x.loanOf(-1, 0), INVALID);
+        refused(x, "loan MAX", () -> x.loanOf(MAX, 0), INVALID);
         x.branch(0, 1);
         due("owed", x.loanOf(0, 2), 7);
         branches(x, 0, "1111");
@@ -671,7 +618,7 @@ public final class PromisesTest {
 
     private static void aliases() {
         about("promise 12");
-        BranchBets x = new BranchBets();
+        Run x = new Run();
         x.oracle(1, 2, 5);
         x.oracle(2, 5, 5);
         x.oracle(3, 3, 5);
@@ -694,25 +641,25 @@ public final class PromisesTest {
         due("mixed", x.aliases(2, 5), 1);
         due("mixed", x.aliases(2, 21), 2);
         x.branch(0, 0);
-        CHECKS.read(x, "aliases", () -> x.aliases(0, 4), 1);
+        read(x, "aliases", () -> x.aliases(0, 4), 1);
         x.undo();
         due("an undone branch", x.aliases(0, 4), 0);
-        CHECKS.refused(x, "no table", () -> x.aliases(3, 5), NOT_FOUND);
-        CHECKS.refused(x, "no table", () -> x.aliases(4, 5), NOT_FOUND);
-        CHECKS.refused(x, "no table, address 64", () -> x.aliases(3, 64), INVALID);
-        CHECKS.refused(x, "address 64", () -> x.aliases(0, 64), INVALID);
-        CHECKS.refused(x, "address -1", () -> x.aliases(0, -1), INVALID);
-        CHECKS.refused(x, "oracle 5", () -> x.aliases(5, 0), INVALID);
-        CHECKS.refused(x, "oracle -1", () -> x.aliases(-1, 0), INVALID);
+        refused(x, "no table", () -> x.aliases(3, 5), NOT_FOUND);
+        refused(x, "no table", () -> x.aliases(4, 5), NOT_FOUND);
+        refused(x, "no table, address 64", () -> x.aliases(3, 64), INVALID);
+        refused(x, "address 64", () -> x.aliases(0, 64), INVALID);
+        refused(x, "address -1", () -> x.aliases(0, -1), INVALID);
+        refused(x, "oracle 5", () -> x.aliases(5, 0), INVALID);
+        refused(x, "oracle -1", () -> x.aliases(-1, 0), INVALID);
     }
 
     private static void share() {
         about("promise 13");
-        BranchBets x = rivals(9999, 9999);
-        CHECKS.refused(x, "neither so far", () -> x.share(0), NOT_FOUND);
+        Run x = rivals(9999, 9999);
+        refused(x, "neither so far", () -> x.share(0), NOT_FOUND);
         x.branch(0, 1);
-        CHECKS.read(x, "always right", () -> x.share(0), 0x3F800000);
-        CHECKS.read(x, "never right", () -> x.share(1), 0);
+        read(x, "always right", () -> x.share(0), 0x3F800000);
+        read(x, "never right", () -> x.share(1), 0);
         branches(x, 0, "00");
         due("a third", x.share(0), 0x3EAAAAAB);
         due("two thirds", x.share(1), 0x3F2AAAAB);
@@ -721,12 +668,12 @@ public final class PromisesTest {
             int taken = times % 7 == 0 || times % 5 == 1 ? 1 : 0;
             x.branch(0, taken);
             right += taken;
-            due(right + " of " + times, x.share(0), bits(right, times));
-            due(times - right + " of " + times, x.share(1), bits(times - right, times));
+            due(right + " of " + times, x.again().share(0), bits(right, times));
+            due(times - right + " of " + times, x.again().share(1), bits(times - right, times));
         }
-        CHECKS.refused(x, "oracle 2", () -> x.share(2), INVALID);
-        CHECKS.refused(x, "oracle -1", () -> x.share(-1), INVALID);
-        BranchBets y = rivals(9999, 9999);
+        refused(x, "oracle 2", () -> x.share(2), INVALID);
+        refused(x, "oracle -1", () -> x.share(-1), INVALID);
+        Run y = rivals(9999, 9999);
         y.set(0, 1);
         y.branch(0, 1);
         write(y, "skip 0 40;skip 0 40;");
@@ -739,7 +686,7 @@ public final class PromisesTest {
 
     private static void rich() {
         about("promise 14");
-        BranchBets x = new BranchBets();
+        Run x = new Run();
         int[] coins = {5, 9, 5, 0, 9, 7};
         for (int purse : coins) {
             x.oracle(0, 1, purse);
@@ -747,12 +694,12 @@ public final class PromisesTest {
         int[] order = {1, 4, 5, 0, 2, 3};
         for (int i = 0; i < order.length; i++) {
             final int place = i;
-            CHECKS.read(x, "rich(" + i + ")", () -> x.rich(place), order[i]);
+            read(x, "rich(" + i + ")", () -> x.rich(place), order[i]);
         }
-        CHECKS.refused(x, "place 6", () -> x.rich(6), NOT_FOUND);
-        CHECKS.refused(x, "place MAX", () -> x.rich(MAX), NOT_FOUND);
-        CHECKS.refused(x, "place -1", () -> x.rich(-1), INVALID);
-        CHECKS.refused(x, "place MIN", () -> x.rich(MIN), INVALID);
+        refused(x, "place 6", () -> x.rich(6), NOT_FOUND);
+        refused(x, "place MAX", () -> x.rich(MAX), NOT_FOUND);
+        refused(x, "place -1", () -> x.rich(-1), INVALID);
+        refused(x, "place MIN", () -> x.rich(MIN), INVALID);
         x.give(3, 8);
         due("the third", x.rich(2), 3);
         due("the last", x.rich(5), 2);
@@ -760,17 +707,17 @@ public final class PromisesTest {
 
     private static void says() {
         about("promise 15");
-        BranchBets x = new BranchBets();
+        Run x = new Run();
         x.oracle(0, 1, 0);
         x.oracle(0, 0, 10);
         x.oracle(1, 1, 10);
         x.oracle(2, 1, 10);
         x.oracle(3, 1, 0);
-        CHECKS.read(x, "fixed", () -> x.says(0, 0), 1);
-        CHECKS.read(x, "fixed", () -> x.says(1, 63), 0);
-        CHECKS.read(x, "by address", () -> x.says(2, 0), 0);
+        read(x, "fixed", () -> x.says(0, 0), 1);
+        read(x, "fixed", () -> x.says(1, 63), 0);
+        read(x, "by address", () -> x.says(2, 0), 0);
         x.branch(0, 1);
-        CHECKS.read(x, "by address", () -> x.says(2, 0), 1);
+        read(x, "by address", () -> x.says(2, 0), 1);
         due("by address, another counter", x.says(2, 1), 0);
         due("by address, the same counter", x.says(2, 62), 1);
         due("by the past, history 1", x.says(3, 0), 0);
@@ -784,15 +731,15 @@ public final class PromisesTest {
         x.branch(8, 1);
         x.branch(8, 1);
         due("by address, 3", x.says(2, 0), 1);
-        CHECKS.refused(x, "oracle 5", () -> x.says(5, 0), INVALID);
-        CHECKS.refused(x, "oracle -1", () -> x.says(-1, 0), INVALID);
-        CHECKS.refused(x, "address 64", () -> x.says(0, 64), INVALID);
-        CHECKS.refused(x, "address -1", () -> x.says(0, -1), INVALID);
+        refused(x, "oracle 5", () -> x.says(5, 0), INVALID);
+        refused(x, "oracle -1", () -> x.says(-1, 0), INVALID);
+        refused(x, "address 64", () -> x.says(0, 64), INVALID);
+        refused(x, "address -1", () -> x.says(0, -1), INVALID);
     }
 
     private static void saysContrary() {
         about("promise 15, contrary");
-        BranchBets x = new BranchBets();
+        Run x = new Run();
         x.oracle(4, 0, 5);
         x.oracle(4, 0, 999);
         x.oracle(0, 1, 50);
@@ -819,7 +766,7 @@ public final class PromisesTest {
         x.stand(2);
         x.stand(4);
         due("those without a seat do not count", x.says(0, 0), 1);
-        BranchBets y = new BranchBets();
+        Run y = new Run();
         y.oracle(0, 1, 30);
         y.oracle(0, 0, 20);
         y.oracle(4, 0, 100);
@@ -837,7 +784,7 @@ public final class PromisesTest {
 
     private static void stake() {
         about("promise 16");
-        BranchBets x = new BranchBets();
+        Run x = new Run();
         x.oracle(0, 1, 100);
         x.oracle(1, 0, 100);
         x.oracle(4, 0, 100);
@@ -850,10 +797,10 @@ public final class PromisesTest {
         x.seat(2, 2);
         x.seat(3, 1);
         x.seat(4, 0);
-        CHECKS.read(x, "fixed", () -> x.stake(0, 0), 5);
-        CHECKS.read(x, "counter 1", () -> x.stake(1, 0), 5);
-        CHECKS.read(x, "contrary", () -> x.stake(2, 0), 5);
-        CHECKS.read(x, "ruined", () -> x.stake(4, 0), 0);
+        read(x, "fixed", () -> x.stake(0, 0), 5);
+        read(x, "counter 1", () -> x.stake(1, 0), 5);
+        read(x, "contrary", () -> x.stake(2, 0), 5);
+        read(x, "ruined", () -> x.stake(4, 0), 0);
         due("less than the purse", x.stake(3, 0), 5);
         x.set(0, 50);
         due("the unit", x.stake(0, 9), 50);
@@ -876,20 +823,20 @@ public final class PromisesTest {
         due("counter 2", x.stake(1, 0), 5);
         x.branch(0, 1);
         due("counter 3", x.stake(1, 0), 10);
-        CHECKS.refused(x, "oracle 5", () -> x.stake(5, 0), INVALID);
-        CHECKS.refused(x, "oracle -1", () -> x.stake(-1, 0), INVALID);
-        CHECKS.refused(x, "address 64", () -> x.stake(0, 64), INVALID);
-        CHECKS.refused(x, "address -1", () -> x.stake(0, -1), INVALID);
+        refused(x, "oracle 5", () -> x.stake(5, 0), INVALID);
+        refused(x, "oracle -1", () -> x.stake(-1, 0), INVALID);
+        refused(x, "address 64", () -> x.stake(0, 64), INVALID);
+        refused(x, "address -1", () -> x.stake(0, -1), INVALID);
     }
 
     private static void odds() {
         about("promise 17");
-        BranchBets x = rivals(100, 100);
-        CHECKS.read(x, "half", () -> x.odds(0), 0x3F000000);
+        Run x = rivals(100, 100);
+        read(x, "half", () -> x.odds(0), 0x3F000000);
         x.oracle(1, 1, 100);
         due("one without a seat", x.odds(0), 0x3F000000);
         x.seat(2, 1);
-        CHECKS.read(x, "a third", () -> x.odds(0), 0x3EAAAAAB);
+        read(x, "a third", () -> x.odds(0), 0x3EAAAAAB);
         branches(x, 2, "11");
         due("three of four", x.odds(0), bits(15, 20));
         due("another counter", x.odds(1), bits(5, 15));
@@ -898,10 +845,10 @@ public final class PromisesTest {
         x.stand(0);
         due("none says 1", x.odds(1), 0);
         x.stand(2);
-        CHECKS.refused(x, "no stakes", () -> x.odds(0), NOT_FOUND);
-        CHECKS.refused(x, "address 64", () -> x.odds(64), INVALID);
-        CHECKS.refused(x, "address -1", () -> x.odds(-1), INVALID);
-        BranchBets y = new BranchBets();
+        refused(x, "no stakes", () -> x.odds(0), NOT_FOUND);
+        refused(x, "address 64", () -> x.odds(64), INVALID);
+        refused(x, "address -1", () -> x.odds(-1), INVALID);
+        Run y = new Run();
         y.oracle(0, 1, 0);
         y.seat(0, 0);
         due("ruined", y.odds(0), NOT_FOUND);
@@ -919,101 +866,101 @@ public final class PromisesTest {
 
     private static void gain() {
         about("promise 18");
-        BranchBets x = rivals(100, 100);
+        Run x = rivals(100, 100);
         x.oracle(1, 0, 100);
         x.oracle(1, 0, 100);
         x.seat(2, 1);
         x.seat(3, 1);
         x.oracle(0, 0, 10);
         x.lend(4, 0, 10);
-        CHECKS.read(x, "wins, pays creditors", () -> x.gain(0, 0, 1), 7);
-        CHECKS.read(x, "loses", () -> x.gain(0, 0, 0), -5);
-        CHECKS.read(x, "loses", () -> x.gain(1, 0, 1), -5);
-        CHECKS.read(x, "wins", () -> x.gain(1, 0, 0), 1);
-        CHECKS.read(x, "wins", () -> x.gain(2, 0, 0), 1);
-        CHECKS.read(x, "a creditor without a seat", () -> x.gain(4, 0, 1), 7);
-        CHECKS.read(x, "a creditor without a seat", () -> x.gain(4, 0, 0), 0);
+        read(x, "wins, pays creditors", () -> x.gain(0, 0, 1), 7);
+        read(x, "loses", () -> x.gain(0, 0, 0), -5);
+        read(x, "loses", () -> x.gain(1, 0, 1), -5);
+        read(x, "wins", () -> x.gain(1, 0, 0), 1);
+        read(x, "wins", () -> x.gain(2, 0, 0), 1);
+        read(x, "a creditor without a seat", () -> x.gain(4, 0, 1), 7);
+        read(x, "a creditor without a seat", () -> x.gain(4, 0, 0), 0);
         due("branch", x.branch(0, 1), 15);
         purses(x, 1, 117, 95, 95, 95, 7);
-        CHECKS.refused(x, "oracle 5", () -> x.gain(5, 0, 1), INVALID);
-        CHECKS.refused(x, "oracle -1", () -> x.gain(-1, 0, 1), INVALID);
-        CHECKS.refused(x, "address 64", () -> x.gain(0, 64, 1), INVALID);
-        CHECKS.refused(x, "address -1", () -> x.gain(0, -1, 1), INVALID);
-        CHECKS.refused(x, "taken 2", () -> x.gain(0, 0, 2), INVALID);
-        CHECKS.refused(x, "taken -1", () -> x.gain(0, 0, -1), INVALID);
+        refused(x, "oracle 5", () -> x.gain(5, 0, 1), INVALID);
+        refused(x, "oracle -1", () -> x.gain(-1, 0, 1), INVALID);
+        refused(x, "address 64", () -> x.gain(0, 64, 1), INVALID);
+        refused(x, "address -1", () -> x.gain(0, -1, 1), INVALID);
+        refused(x, "taken 2", () -> x.gain(0, 0, 2), INVALID);
+        refused(x, "taken -1", () -> x.gain(0, 0, -1), INVALID);
     }
 
     private static void doom() {
         about("promise 19");
-        BranchBets x = rivals(1000, 100);
+        Run x = rivals(1000, 100);
         x.set(0, 1);
-        CHECKS.read(x, "by the 100th", () -> x.doom(1, 0, 1), 100);
-        CHECKS.read(x, "it wins", () -> x.doom(1, 0, 0), NOT_FOUND);
+        read(x, "by the 100th", () -> x.doom(1, 0, 1), 100);
+        read(x, "it wins", () -> x.doom(1, 0, 0), NOT_FOUND);
         x.give(1, 1);
-        CHECKS.read(x, "not by 100", () -> x.doom(1, 0, 1), NOT_FOUND);
+        read(x, "not by 100", () -> x.doom(1, 0, 1), NOT_FOUND);
         x.set(0, 50);
-        CHECKS.read(x, "101 by 50", () -> x.doom(1, 0, 1), 3);
-        CHECKS.read(x, "1000 by 50, but the other's purse is not empty", () -> x.doom(0, 0, 0), 20);
+        read(x, "101 by 50", () -> x.doom(1, 0, 1), 3);
+        read(x, "1000 by 50, but the other's purse is not empty", () -> x.doom(0, 0, 0), 20);
         x.stand(1);
-        CHECKS.read(x, "no seat", () -> x.doom(1, 0, 1), NOT_FOUND);
+        read(x, "no seat", () -> x.doom(1, 0, 1), NOT_FOUND);
         x.oracle(0, 0, 0);
-        CHECKS.read(x, "ruined", () -> x.doom(2, 0, 1), 0);
-        BranchBets y = rivals(100, 100);
+        read(x, "ruined", () -> x.doom(2, 0, 1), 0);
+        Run y = rivals(100, 100);
         y.oracle(1, 0, 12);
         y.seat(2, 1);
-        CHECKS.read(y, "it learns", () -> y.doom(2, 0, 1), NOT_FOUND);
+        read(y, "it learns", () -> y.doom(2, 0, 1), NOT_FOUND);
         y.branch(0, 0);
-        CHECKS.read(y, "a double stake, then it's ruined", () -> y.doom(2, 0, 1), 2);
-        CHECKS.refused(y, "oracle 3", () -> y.doom(3, 0, 1), INVALID);
-        CHECKS.refused(y, "oracle -1", () -> y.doom(-1, 0, 1), INVALID);
-        CHECKS.refused(y, "address 64", () -> y.doom(0, 64, 1), INVALID);
-        CHECKS.refused(y, "address -1", () -> y.doom(0, -1, 1), INVALID);
-        CHECKS.refused(y, "taken 2", () -> y.doom(0, 0, 2), INVALID);
-        CHECKS.refused(y, "taken -1", () -> y.doom(0, 0, -1), INVALID);
-        CHECKS.refused(x, "ruined, but address 64", () -> x.doom(2, 64, 1), INVALID);
+        read(y, "a double stake, then it's ruined", () -> y.doom(2, 0, 1), 2);
+        refused(y, "oracle 3", () -> y.doom(3, 0, 1), INVALID);
+        refused(y, "oracle -1", () -> y.doom(-1, 0, 1), INVALID);
+        refused(y, "address 64", () -> y.doom(0, 64, 1), INVALID);
+        refused(y, "address -1", () -> y.doom(0, -1, 1), INVALID);
+        refused(y, "taken 2", () -> y.doom(0, 0, 2), INVALID);
+        refused(y, "taken -1", () -> y.doom(0, 0, -1), INVALID);
+        refused(x, "ruined, but address 64", () -> x.doom(2, 64, 1), INVALID);
     }
 
     private static void bestRow() {
         about("promise 20");
-        BranchBets x = rivals(10, 10);
+        Run x = rivals(10, 10);
         x.oracle(0, 1, 3);
-        CHECKS.read(x, "1 branch", () -> x.bestRow(0, 0, 1, 0), 1);
-        CHECKS.read(x, "its purse", () -> x.bestRow(0, 0, 1, 1), 15);
-        CHECKS.read(x, "the first of two rows", () -> x.bestRow(0, 0, 3, 0), 6);
-        CHECKS.read(x, "its purse", () -> x.bestRow(0, 0, 3, 1), 20);
-        CHECKS.read(x, "the first of two rows", () -> x.bestRow(1, 0, 3, 0), 0);
-        CHECKS.read(x, "its purse", () -> x.bestRow(1, 0, 3, 1), 20);
-        CHECKS.read(x, "5 branches", () -> x.bestRow(0, 63, 5, 0), 14);
-        CHECKS.read(x, "no seat", () -> x.bestRow(2, 63, 5, 0), 0);
-        CHECKS.read(x, "no seat", () -> x.bestRow(2, 63, 5, 1), 3);
+        read(x, "1 branch", () -> x.bestRow(0, 0, 1, 0), 1);
+        read(x, "its purse", () -> x.bestRow(0, 0, 1, 1), 15);
+        read(x, "the first of two rows", () -> x.bestRow(0, 0, 3, 0), 6);
+        read(x, "its purse", () -> x.bestRow(0, 0, 3, 1), 20);
+        read(x, "the first of two rows", () -> x.bestRow(1, 0, 3, 0), 0);
+        read(x, "its purse", () -> x.bestRow(1, 0, 3, 1), 20);
+        read(x, "5 branches", () -> x.bestRow(0, 63, 5, 0), 14);
+        read(x, "no seat", () -> x.bestRow(2, 63, 5, 0), 0);
+        read(x, "no seat", () -> x.bestRow(2, 63, 5, 1), 3);
         for (int times = 0; times <= 6; times += 6) {
             final int t = times;
-            CHECKS.refused(x, times + " branches", () -> x.bestRow(0, 0, t, 0), INVALID);
+            refused(x, times + " branches", () -> x.bestRow(0, 0, t, 0), INVALID);
         }
-        CHECKS.refused(x, "MAX branches", () -> x.bestRow(0, 0, MAX, 0), INVALID);
-        CHECKS.refused(x, "-1 branches", () -> x.bestRow(0, 0, -1, 0), INVALID);
-        CHECKS.refused(x, "what 2", () -> x.bestRow(0, 0, 1, 2), INVALID);
-        CHECKS.refused(x, "what -1", () -> x.bestRow(0, 0, 1, -1), INVALID);
-        CHECKS.refused(x, "oracle 3", () -> x.bestRow(3, 0, 1, 0), INVALID);
-        CHECKS.refused(x, "oracle -1", () -> x.bestRow(-1, 0, 1, 0), INVALID);
-        CHECKS.refused(x, "address 64", () -> x.bestRow(0, 64, 1, 0), INVALID);
-        CHECKS.refused(x, "address -1", () -> x.bestRow(0, -1, 1, 0), INVALID);
-        BranchBets y = rivals(500, 500);
+        refused(x, "MAX branches", () -> x.bestRow(0, 0, MAX, 0), INVALID);
+        refused(x, "-1 branches", () -> x.bestRow(0, 0, -1, 0), INVALID);
+        refused(x, "what 2", () -> x.bestRow(0, 0, 1, 2), INVALID);
+        refused(x, "what -1", () -> x.bestRow(0, 0, 1, -1), INVALID);
+        refused(x, "oracle 3", () -> x.bestRow(3, 0, 1, 0), INVALID);
+        refused(x, "oracle -1", () -> x.bestRow(-1, 0, 1, 0), INVALID);
+        refused(x, "address 64", () -> x.bestRow(0, 64, 1, 0), INVALID);
+        refused(x, "address -1", () -> x.bestRow(0, -1, 1, 0), INVALID);
+        Run y = rivals(500, 500);
         y.oracle(1, 0, 500);
         y.seat(2, 1);
-        CHECKS.read(y, "at once", () -> y.bestRow(0, 0, 2, 0), 3);
-        CHECKS.read(y, "9 and 2", () -> y.bestRow(0, 0, 2, 1), 511);
-        CHECKS.read(y, "lose first, so that the table stakes double", () -> y.bestRow(0, 0, 3, 0), 3);
-        CHECKS.read(y, "-5, 14 and 9", () -> y.bestRow(0, 0, 3, 1), 518);
-        BranchBets z = rivals(500, 0);
+        read(y, "at once", () -> y.bestRow(0, 0, 2, 0), 3);
+        read(y, "9 and 2", () -> y.bestRow(0, 0, 2, 1), 511);
+        read(y, "lose first, so that the table stakes double", () -> y.bestRow(0, 0, 3, 0), 3);
+        read(y, "-5, 14 and 9", () -> y.bestRow(0, 0, 3, 1), 518);
+        Run z = rivals(500, 0);
         z.oracle(0, 0, 5);
         z.lend(0, 1, 5);
-        CHECKS.read(z, "its own coins after a loan", () -> z.bestRow(0, 0, 5, 1), 500);
+        read(z, "its own coins after a loan", () -> z.bestRow(0, 0, 5, 1), 500);
     }
 
     private static void count() {
         about("promise 21");
-        BranchBets x = rivals(100, 100);
+        Run x = rivals(100, 100);
         x.oracle(1, 0, 30);
         x.oracle(0, 0, 0);
         x.seat(2, 1);
@@ -1029,29 +976,29 @@ public final class PromisesTest {
         int[] all = {4, 2, 1, 2, 230, 13, 4, 3, 1, 4, 6};
         for (int i = 0; i < all.length; i++) {
             final int what = i;
-            CHECKS.read(x, "count(" + i + ")", () -> x.count(what), all[i]);
+            read(x, "count(" + i + ")", () -> x.count(what), all[i]);
         }
         x.set(0, 11);
         x.set(1, 12);
         x.set(2, 13);
         for (int i = 20; i <= 22; i++) {
             final int what = i;
-            CHECKS.read(x, "count(" + i + ")", () -> x.count(what), i - 9);
+            read(x, "count(" + i + ")", () -> x.count(what), i - 9);
         }
-        BranchBets y = new BranchBets();
+        Run y = new Run();
         y.oracle(0, 0, 0);
         y.oracle(1, 0, 0);
         due("all are ruined", y.count(2), 2);
         int[] wrong = {-1, 11, 12, 19, 23, MIN, MAX};
         for (int each : wrong) {
-            CHECKS.refused(x, "count(" + each + ")", () -> x.count(each), INVALID);
+            refused(x, "count(" + each + ")", () -> x.count(each), INVALID);
         }
     }
 
     private static void undo() {
         about("promise 22");
-        BranchBets x = new BranchBets();
-        CHECKS.refused(x, "undo of nothing", x::undo, NOT_POSSIBLE);
+        Run x = new Run();
+        refused(x, "undo of nothing", x::undo, NOT_POSSIBLE);
         x.oracle(0, 1, 50);
         due("states", x.count(9), 1);
         x.oracle(0, 0, 50);
@@ -1063,22 +1010,22 @@ public final class PromisesTest {
         write(x, "cut 3;");
         String[] seen = new String[6];
         for (int i = 0; i < 6; i++) {
-            seen[i] = Snapshot.ofState(x);
+            seen[i] = View.ofState(x);
             x.branch(i, i & 1);
         }
         for (int left = 3; left >= 0; left--) {
             due("undo", x.undo(), left);
-            CHECKS.that("undo does not restore state " + (left + 2), Snapshot.ofState(x).equals(seen[left + 2]));
+            CHECKS.that("undo does not restore state " + (left + 2), View.ofState(x).equals(seen[left + 2]));
             due("states", x.count(9), left);
         }
-        CHECKS.refused(x, "undo of what was dropped", x::undo, NOT_POSSIBLE);
+        refused(x, "undo of what was dropped", x::undo, NOT_POSSIBLE);
         due("the text stays", x.count(10), 6);
         due("branches", x.count(6), 2);
         x.branch(9, 1);
         x.give(0, 3);
         due("undo", x.undo(), 1);
         due("undo", x.undo(), 0);
-        CHECKS.that("undo of later changes", Snapshot.ofState(x).equals(seen[2]));
+        CHECKS.that("undo of later changes", View.ofState(x).equals(seen[2]));
         x.seat(0, 7);
         x.branch(0, 5);
         x.oracle(9, 9, 9);
@@ -1092,26 +1039,26 @@ public final class PromisesTest {
 
     private static void type() {
         about("promise 23");
-        BranchBets x = new BranchBets();
+        Run x = new Run();
         due("type", x.type(32), 1);
         due("type", x.type(126), 2);
-        CHECKS.refused(x, "31", () -> x.type(31), INVALID);
-        CHECKS.refused(x, "127", () -> x.type(127), INVALID);
-        CHECKS.refused(x, "-1", () -> x.type(-1), INVALID);
-        CHECKS.refused(x, "65536 + 65", () -> x.type(65536 + 65), INVALID);
-        CHECKS.refused(x, "MIN", () -> x.type(MIN), INVALID);
-        CHECKS.refused(x, "MAX", () -> x.type(MAX), INVALID);
+        refused(x, "31", () -> x.type(31), INVALID);
+        refused(x, "127", () -> x.type(127), INVALID);
+        refused(x, "-1", () -> x.type(-1), INVALID);
+        refused(x, "65536 + 65", () -> x.type(65536 + 65), INVALID);
+        refused(x, "MIN", () -> x.type(MIN), INVALID);
+        refused(x, "MAX", () -> x.type(MAX), INVALID);
         for (int length = 3; length <= 80; length++) {
             due("type", x.type('a'), length);
         }
-        CHECKS.refused(x, "an 81st", () -> x.type('a'), LIMIT);
-        CHECKS.refused(x, "an 81st that is none", () -> x.type(31), INVALID);
+        refused(x, "an 81st", () -> x.type('a'), LIMIT);
+        refused(x, "an 81st that is none", () -> x.type(31), INVALID);
         due("length", x.count(10), 80);
     }
 
     private static void clearText() {
         about("promise 24");
-        BranchBets x = new BranchBets();
+        Run x = new Run();
         due("empty", x.clearText(), 0);
         write(x, "take");
         due("clearText", x.clearText(), 4);
@@ -1127,20 +1074,20 @@ public final class PromisesTest {
     }
 
     private static void faultOf(String text, int position, int reason, int cause) {
-        BranchBets x = new BranchBets();
+        Run x = new Run();
         write(x, text);
-        CHECKS.read(x, "position of '" + text + "'", () -> x.fault(0), position);
-        CHECKS.read(x, "reason of '" + text + "'", () -> x.fault(1), reason);
-        CHECKS.read(x, "cause of '" + text + "'", () -> x.fault(2), cause);
-        CHECKS.refused(x, "play of '" + text + "'", x::play, NOT_POSSIBLE);
+        read(x, "position of '" + text + "'", () -> x.fault(0), position);
+        read(x, "reason of '" + text + "'", () -> x.fault(1), reason);
+        read(x, "cause of '" + text + "'", () -> x.fault(2), cause);
+        refused(x, "play of '" + text + "'", x::play, NOT_POSSIBLE);
     }
 
     private static void noFault(String text) {
-        BranchBets x = new BranchBets();
+        Run x = new Run();
         write(x, text);
         for (int what = 0; what <= 2; what++) {
             final int w = what;
-            CHECKS.read(x, "fault of '" + text + "'", () -> x.fault(w), NOT_FOUND);
+            read(x, "fault of '" + text + "'", () -> x.fault(w), NOT_FOUND);
         }
     }
 
@@ -1155,12 +1102,12 @@ public final class PromisesTest {
         noFault("cut 5;".repeat(12) + "cut 50;");
         formFaults();
         rangeFaults();
-        BranchBets x = new BranchBets();
-        CHECKS.refused(x, "what 3", () -> x.fault(3), INVALID);
-        CHECKS.refused(x, "what -1", () -> x.fault(-1), INVALID);
+        Run x = new Run();
+        refused(x, "what 3", () -> x.fault(3), INVALID);
+        refused(x, "what -1", () -> x.fault(-1), INVALID);
         x.type('x');
-        CHECKS.refused(x, "what 3", () -> x.fault(3), INVALID);
-        CHECKS.refused(x, "what MIN", () -> x.fault(MIN), INVALID);
+        refused(x, "what 3", () -> x.fault(3), INVALID);
+        refused(x, "what MIN", () -> x.fault(MIN), INVALID);
     }
 
     private static void formFaults() {
@@ -1234,14 +1181,14 @@ public final class PromisesTest {
         faultOf("take 1 41;x", 0, 2, 1);
     }
 
-    private static int played(BranchBets x, String text) {
+    private static int played(Run x, String text) {
         write(x, text);
         return x.play();
     }
 
     private static void play() {
         about("promise 26");
-        BranchBets x = new BranchBets();
+        Run x = new Run();
         due("no orders", x.play(), 0);
         due("no orders are one change", x.count(9), 1);
         x.oracle(1, 5, 0);
@@ -1271,9 +1218,9 @@ public final class PromisesTest {
         due("cut", played(x, "cut 33;"), 0);
         due("the cut", x.count(21), 33);
         write(x, "cut 1;take 5 3;cut 7;loop 6 2;");
-        CHECKS.undone(x, "play", x::play, 5);
+        undone(x, "play", x::play, 5);
         due("the cut is as it was", x.count(21), 33);
-        BranchBets y = rivals(500, 500);
+        Run y = rivals(500, 500);
         y.set(0, 50);
         due("play", played(y, "cut 0;take 1 1;cut 50;take 1 1;cut 10;skip 2 1;"), 3);
         purses(y, 30, 500 + 50 + 25 - 50, 500 - 100 + 45);
@@ -1287,11 +1234,11 @@ public final class PromisesTest {
 
     private static void playErrors() {
         about("promise 26, errors");
-        BranchBets x = rivals(500, 500);
+        Run x = rivals(500, 500);
         write(x, "cut 3;take 1 5;take 64 1;");
-        CHECKS.refused(x, "an order that is out of range", x::play, NOT_POSSIBLE);
+        refused(x, "an order that is out of range", x::play, NOT_POSSIBLE);
         write(x, "cut 3;take 1 5;take 6 1");
-        CHECKS.refused(x, "an order without an end", x::play, NOT_POSSIBLE);
+        refused(x, "an order without an end", x::play, NOT_POSSIBLE);
         x.type(';');
         due("play", x.play(), 6);
         due("the cut", x.count(21), 3);

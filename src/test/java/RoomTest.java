@@ -4,7 +4,7 @@ import java.lang.management.ManagementFactory;
 /** What an object makes in its constructor is little, and its calls make nothing. */
 public final class RoomTest {
     private static final ThreadMXBean THREADS = (ThreadMXBean) ManagementFactory.getThreadMXBean();
-    private static final Checks CHECKS = new Checks("RoomTest");
+    private static final Checks CHECKS = new Checks();
     private static final String TEXT = "loop 5 9;cut 7;flip 63 40;";
 
     private RoomTest() {
@@ -12,10 +12,10 @@ public final class RoomTest {
 
     public static void main(String[] args) {
         CHECKS.about("room");
-        BranchBets x = new BranchBets();
         // Twice ahead of the count: what the machine itself makes when code runs first is not the program's.
-        callAll(x);
         callAll(new BranchBets());
+        callAll(new BranchBets());
+        BranchBets x = new BranchBets();
         long before = THREADS.getCurrentThreadAllocatedBytes();
         callAll(x);
         long calls = THREADS.getCurrentThreadAllocatedBytes() - before;
@@ -46,7 +46,7 @@ public final class RoomTest {
         x.type('x');
         x.fault(2);
         x.play();
-        for (int i = 0; i < 12; i++) {
+        for (int i = 0; i < 12; i += 3) {
             x.branch(i, i & 1);
             x.give(i, 9);
             x.share(i);
