@@ -43,7 +43,8 @@ public final class ChangesEdgesTest extends TestBase {
     }
 
     private static void noChange() {
-        about("Changes and errors", "The changes are the calls of ..: all others are none");
+        about("Changes and errors", "The changes are the calls of set, oracle, seat, stand, give, lend, branch and "
+                + "play that return no error", "all others are none");
         Run x = rivals(50, 50);
         x.undo();
         due("states", x.count(9), 3);
@@ -100,7 +101,7 @@ public final class ChangesEdgesTest extends TestBase {
     }
 
     private static void fourStates() {
-        about("Changes and errors", "A history of at most 4 states is kept: 4 changes, all are undone");
+        about("Changes and errors", "A history of at most 4 states is kept", "4 changes, all are undone");
         Run x = gifts(3);
         due("states", x.count(9), 4);
         for (int left = 3; left >= 1; left--) {
@@ -126,7 +127,7 @@ public final class ChangesEdgesTest extends TestBase {
     }
 
     private static void manyStates() {
-        about("Changes and errors", "if there are 5 states then, the oldest one is dropped: again and again");
+        about("Changes and errors", "if there are 5 states then, the oldest one is dropped", "again and again");
         for (int times = 5; times <= 13; times++) {
             Run x = gifts(times);
             due("states", x.count(9), 4);
@@ -220,7 +221,8 @@ public final class ChangesEdgesTest extends TestBase {
     // ---- errors
 
     private static void invalidFirst() {
-        about("Changes and errors", "If several errors apply to a call, INVALID_ARGUMENT is returned rather than ..");
+        about("Changes and errors", "If several errors apply to a call, INVALID_ARGUMENT is returned rather than "
+                + "NOT_POSSIBLE", "or than any other error");
         Run x = busy();
         refused(x, "seat: no such booth, has a seat", () -> x.seat(0, 3), INVALID);
         refused(x, "seat: no such oracle, booth 1 is full", () -> x.seat(5, 1), INVALID);

@@ -12,11 +12,13 @@ public final class SeatsEdgesTest extends TestBase {
         oracleWithinRanges();
         oracleOutOfRange();
         oracleLimit();
+        oracleAnew();
         seatReturns();
         seatLowestFree();
         seatErrors();
         seatFull();
         standReturns();
+        standAndSit();
         standErrors();
         giveWithinRanges();
         giveOutOfRange();
@@ -158,6 +160,29 @@ public final class SeatsEdgesTest extends TestBase {
         }
     }
 
+    private static void oracleAnew() {
+        about("Promise 3, oracle", "Adds an oracle, without a seat", "in the place of one whose coming is undone");
+        for (int kind = 0; kind <= 4; kind++) {
+            Run x = rivals(10, 100);
+            x.oracle(1, 0, 5);
+            x.seat(2, 1);
+            branches(x, 0, "01");
+            for (int what = 5; what <= 8; what++) {
+                due("it was right, wrong and ruined, oracleOf " + what, x.oracleOf(2, what), what == 7 ? 2 : 1);
+            }
+            for (int i = 0; i < 4; i++) {
+                x.undo();
+            }
+            due("oracles", x.count(0), 2);
+            due("oracle", x.oracle(kind, 0, 7), 2);
+            int[] wanted = {kind, 0, 7, NOT_FOUND, NOT_FOUND, 0, 0, 0, 0, 0, 0};
+            for (int what = 0; what < wanted.length; what++) {
+                due("oracleOf " + what, x.oracleOf(2, what), wanted[what]);
+            }
+            due("its counter", x.counter(2, 0), kind >= 1 && kind <= 3 ? 1 : NOT_FOUND);
+        }
+    }
+
     // ---- Promise 4
 
     private static void seatReturns() {
@@ -242,7 +267,7 @@ public final class SeatsEdgesTest extends TestBase {
     // ---- Promise 5
 
     private static void standReturns() {
-        about("Promise 5, stand", "Returns the booth in which it sat; its seat is free then");
+        about("Promise 5, stand", "its seat is free then .. Returns the booth in which it sat");
         Run x = busy();
         int[] booths = {0, 1, 2, 1};
         for (int oracle = 0; oracle < 4; oracle++) {
@@ -255,6 +280,19 @@ public final class SeatsEdgesTest extends TestBase {
         }
         due("seat", x.seat(3, 1), 1);
         due("the seat that was free", x.oracleOf(3, 4), 0);
+    }
+
+    private static void standAndSit() {
+        about("Promise 5, stand", "Lets an oracle stand up", "what is not its seat stays");
+        Run x = busy();
+        String before = View.ofState(x);
+        int[] booths = {0, 1, 2, 1};
+        for (int oracle = 3; oracle >= 0; oracle--) {
+            due("stand", x.stand(oracle), booths[oracle]);
+            CHECKS.that("a stake without a seat", x.stake(oracle, 0) == 0);
+            x.seat(oracle, booths[oracle]);
+            CHECKS.that("more than a seat has changed", View.ofState(x).equals(before));
+        }
     }
 
     private static void standErrors() {
@@ -272,7 +310,7 @@ public final class SeatsEdgesTest extends TestBase {
     // ---- Promise 6
 
     private static void giveWithinRanges() {
-        about("Promise 6, give", "coins: 1 to 9999. Returns its purse then");
+        about("Promise 6, give", "coins: 1 to 9999 .. Returns its purse then");
         Run x = busy();
         undone(x, "the least", () -> x.give(4, 1), 1);
         undone(x, "the most", () -> x.give(4, 9999), 9999);
@@ -324,7 +362,7 @@ public final class SeatsEdgesTest extends TestBase {
     }
 
     private static void giveLimitAboveByOtherWays() {
-        about("Promise 6, give", "LIMIT_REACHED if it would be above 100000: a loan and a bet may go above it");
+        about("Promise 6, give", "LIMIT_REACHED if it would be above 100000", "a loan and a bet may go above it");
         Run x = wealthy(100000);
         x.oracle(0, 0, 9999);
         undone(x, "lend", () -> x.lend(1, 0, 9900), 0);
@@ -346,7 +384,7 @@ public final class SeatsEdgesTest extends TestBase {
     // ---- Promise 7
 
     private static void lendWithinRanges() {
-        about("Promise 7, lend", "coins: 1 to 9999. Returns the number of the loan");
+        about("Promise 7, lend", "coins: 1 to 9999 .. Returns the number of the loan");
         Run x = new Run();
         x.oracle(0, 1, 9999);
         x.oracle(4, 0, 1);
@@ -410,7 +448,7 @@ public final class SeatsEdgesTest extends TestBase {
     // ---- Promise 8
 
     private static void branchWithinRanges() {
-        about("Promise 8, branch", "address: 0 to 63; taken: 1 or 0");
+        about("Promise 8, branch", "address: 0 to 63 .. taken: 1 or 0");
         for (int address = 0; address <= 63; address += 63) {
             for (int taken = 0; taken <= 1; taken++) {
                 Run x = new Run();

@@ -18,9 +18,13 @@ abstract class TestBase {
         CHECKS.about(what);
     }
 
-    /** Where the document says it, and the words that the checks behind it are for. */
+    /** Where the document says it, its words ("..": some are left out), and which case of them is looked at. */
     static void about(String where, String words) {
         CHECKS.about(where + ", \"" + words + "\"");
+    }
+
+    static void about(String where, String words, String which) {
+        CHECKS.about(where + ", \"" + words + "\": " + which);
     }
 
     static void due(String call, long got, long want) {

@@ -1,6 +1,8 @@
 /** The boundary cases of promises 23 to 26 and of the section "Texts": characters, faults, orders that are done. */
 public final class TextsEdgesTest extends TestBase {
     private static final String[] WORDS = {"take", "skip", "flip", "loop"};
+    private static final String[] ORDERS = {
+        "flip 12 34;", "skip 1 2;", "loop 12 3;", "take 1 23;", "cut 12;", "cut 1;"};
 
     private TextsEdgesTest() {
     }
@@ -12,6 +14,7 @@ public final class TextsEdgesTest extends TestBase {
         clearTextReturns();
         faultWhat();
         faultOfNothing();
+        faultOfLaterTexts();
         faultOfFullTexts();
         wordsAreThese();
         wordsAreNotThese();
@@ -60,7 +63,7 @@ public final class TextsEdgesTest extends TestBase {
     // ---- Promise 23
 
     private static void typeWithinRange() {
-        about("Promise 23, type", "character: 32 to 126. Returns the length of the text");
+        about("Promise 23, type", "character: 32 to 126 .. Returns the length of the text");
         Run x = new Run();
         due("the least", x.type(32), 1);
         due("the most", x.type(126), 2);
@@ -157,6 +160,26 @@ public final class TextsEdgesTest extends TestBase {
         refused(x, "the text is emptied", () -> x.fault(1), NOT_FOUND);
     }
 
+    private static void faultOfLaterTexts() {
+        about("Promise 25, fault", "Tells about the fault of the text", "as it is, whatever fault it had before");
+        String[] texts = {"take 1 41;", "x", "skip 1 1;loop 1", "take 64 1;", "cut 51;",
+            "flip 1 1;take 1 0;", "~", "cut"};
+        int[][] faults = {
+            {0, 2, 1}, {0, 1, 0}, {9, 1, 6}, {0, 2, 0}, {0, 2, 0}, {9, 2, 1}, {0, 1, 0}, {0, 1, 3}};
+        Run x = new Run();
+        for (int i = 0; i < texts.length; i++) {
+            write(x, texts[i]);
+            for (int what = 0; what <= 2; what++) {
+                due("fault(" + what + ") of '" + texts[i] + "'", x.fault(what), faults[i][what]);
+            }
+        }
+        x.type(' ');
+        due("the same one, longer", x.fault(2), 4);
+        x.type('9');
+        x.type(';');
+        due("none any more", x.fault(2), NOT_FOUND);
+    }
+
     private static void faultOfFullTexts() {
         about("Texts", "There is a text of at most 80 characters");
         noFault("cut 5;".repeat(11) + "cut 50;" + "cut 49;");
@@ -177,8 +200,8 @@ public final class TextsEdgesTest extends TestBase {
     // ---- Texts: the form
 
     private static void wordsAreThese() {
-        about("Texts", "a word, an address and times: \"take\", \"skip\", \"flip\", \"loop\", or the word \"cut\" and "
-                + "a number");
+        about("Texts", "a word, an address and times .. \"take\" .. \"skip\" .. \"flip\" .. \"loop\" .. or the "
+                + "word \"cut\" and a number");
         for (String word : WORDS) {
             noFault(word + " 5 3;");
             faultIs(word + " 5;", 0, 1, 6);
@@ -213,12 +236,12 @@ public final class TextsEdgesTest extends TestBase {
     }
 
     private static void wordCutIsNotThese() {
-        about("Texts", "0 if its letters a to z, as many as follow one another, are none of these words: cut");
+        about("Texts", "0 if its letters a to z, as many as follow one another, are none of these words", "not cut");
         for (String text : new String[] {"c", "cu", "ut 5;", "ct 5;", "cu 5;", "cutt 5;", "cuts 5;", "cuttake 5;",
                 "cat 5;", "but 5;", "cup 5;", "Cut 5;", "cUt 5;", "cuT 5;", " cut 5;", "5;", ";", "~", "`cut 5;"}) {
             faultIs(text, 0, 1, 0);
         }
-        about("Texts", "its letters a to z, as many as follow one another: the signs beside a and z are none");
+        about("Texts", "its letters a to z, as many as follow one another", "the signs beside a and z are none");
         faultIs("take`5 3;", 0, 1, 4);
         faultIs("take{5 3;", 0, 1, 4);
         faultIs("takeA 5 3;", 0, 1, 4);
@@ -257,7 +280,7 @@ public final class TextsEdgesTest extends TestBase {
         faultIs("take 05 003;", 0, 1, 10);
         faultIs("cut ;", 0, 1, 4);
         faultIs("cut 005;", 0, 1, 6);
-        about("Texts", "Numbers have 1 or 2 digits: the signs beside 0 and 9 are none");
+        about("Texts", "Numbers have 1 or 2 digits", "the signs beside 0 and 9 are none");
         for (char sign : new char[] {'/', ':', '-', '+', '.', 'a', ' '}) {
             faultIs("take " + sign + "5 3;", 0, 1, 5);
             faultIs("take 5 " + sign + "3;", 0, 1, 7);
@@ -290,7 +313,7 @@ public final class TextsEdgesTest extends TestBase {
     // ---- Texts: the ranges
 
     private static void addressesInRange() {
-        about("Texts", "2 if a number is out of its range (addresses 0 to 63)");
+        about("Texts", "2 if a number is out of its range (addresses 0 to 63");
         for (String word : WORDS) {
             noFault(word + " 0 1;" + word + " 00 1;" + word + " 63 1;");
             faultIs(word + " 64 1;", 0, 2, 0);
@@ -299,7 +322,7 @@ public final class TextsEdgesTest extends TestBase {
     }
 
     private static void timesInRange() {
-        about("Texts", "2 if a number is out of its range (times 1 to 40)");
+        about("Texts", "2 if a number is out of its range .. times 1 to 40");
         for (String word : WORDS) {
             noFault(word + " 0 1;" + word + " 0 01;" + word + " 0 40;");
             faultIs(word + " 0 0;", 0, 2, 1);
@@ -310,7 +333,7 @@ public final class TextsEdgesTest extends TestBase {
     }
 
     private static void cutInRange() {
-        about("Texts", "2 if a number is out of its range (the cut as its setting)");
+        about("Texts", "2 if a number is out of its range .. the cut as its setting");
         noFault("cut 0;cut 00;cut 50;");
         faultIs("cut 51;", 0, 2, 0);
         faultIs("cut 99;", 0, 2, 0);
@@ -329,7 +352,7 @@ public final class TextsEdgesTest extends TestBase {
 
     private static void reasonOfBoth() {
         about("Texts", "its reason is 1 if it is not of this form, its \";\" included, and 2 if a number is out of "
-                + "its range: both");
+                + "its range", "both");
         faultIs("take 64 1", 0, 1, 9);
         faultIs("take 64", 0, 1, 7);
         faultIs("take 64 41", 0, 1, 10);
@@ -344,7 +367,7 @@ public final class TextsEdgesTest extends TestBase {
 
     private static void causeAtEachCharacter() {
         about("Texts", "at which character of the order it breaks off");
-        for (String order : new String[] {"flip 12 34;", "skip 1 2;", "loop 12 3;", "take 1 23;", "cut 12;", "cut 1;"}) {
+        for (String order : ORDERS) {
             int letters = order.indexOf(' ');
             for (int i = 0; i < order.length(); i++) {
                 String broken = order.substring(0, i) + '~' + order.substring(i + 1);
@@ -356,7 +379,7 @@ public final class TextsEdgesTest extends TestBase {
 
     private static void causeAtEachEnd() {
         about("Texts", "of another order that the text ends too early it is its length");
-        for (String order : new String[] {"flip 12 34;", "skip 1 2;", "loop 12 3;", "take 1 23;", "cut 12;", "cut 1;"}) {
+        for (String order : ORDERS) {
             int letters = order.indexOf(' ');
             for (int length = 1; length < order.length(); length++) {
                 String part = order.substring(0, length);
@@ -414,8 +437,8 @@ public final class TextsEdgesTest extends TestBase {
     }
 
     private static void playOfOne() {
-        about("Texts", "so many that are taken; that are not; taken and not by turns, the first one taken; all but "
-                + "the last one of so many are taken: 1, 2 and 3 of them");
+        about("Texts", "so many branches that are taken .. so many that are not .. so many, taken and not by turns, "
+                + "the first one taken .. all but the last one of so many are taken", "1, 2 and 3 of them");
         played("take 0 1;", 1, 1);
         played("take 0 2;", 2, 3);
         played("take 0 3;", 3, 7);
@@ -434,7 +457,7 @@ public final class TextsEdgesTest extends TestBase {
     }
 
     private static void playOfMost() {
-        about("Texts", "times 1 to 40: 39 and 40 of them");
+        about("Texts", "times 1 to 40", "39 and 40 of them");
         played("take 0 40;", 40, 255);
         played("take 0 8;skip 0 40;", 48, 0);
         played("flip 63 40;", 40, 170);

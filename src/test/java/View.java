@@ -14,7 +14,7 @@ final class View {
         asked = run.again();
     }
 
-    /** The state, the text, the history of changes, and what undo and play would lead to. */
+    /** The state, the text, the history of changes, and what undo, play and other changes would lead to. */
     static String ofAll(Run run) {
         StringBuilder all = new StringBuilder(ofState(run));
         Run now = run.again();
@@ -32,7 +32,20 @@ final class View {
         Run ended = run.again();
         ended.type(';');
         all.append("\n; and play ").append(ended.play()).append(": ").append(ofState(ended));
+        all.append("\nchanges ").append(laterChanges(run.again()));
         return all.toString();
+    }
+
+    /** What changes of each kind would answer, and the state behind them. */
+    private static String laterChanges(Run run) {
+        int[] answers = {run.oracle(1, 3, 50), run.seat(run.count(0) - 1, 1), run.seat(run.count(0) - 1, 2),
+            run.lend(0, 1, 1), run.branch(9, 1), run.stand(0), run.give(0, 3), run.set(0, 7), run.branch(63, 0),
+            run.seat(0, 2), run.branch(9, 1)};
+        StringBuilder all = new StringBuilder();
+        for (int answer : answers) {
+            all.append(answer).append(' ');
+        }
+        return all.append(ofState(run)).toString();
     }
 
     /** What a change records: neither the text nor the history of changes. */

@@ -110,7 +110,7 @@ public final class WhatThereIsEdgesTest extends TestBase {
     }
 
     private static void oracleOfDebts() {
-        about("Promise 9, oracleOf", "what it owes in all; what is owed to it in all");
+        about("Promise 9, oracleOf", "9: what it owes in all; 10: what is owed to it in all");
         Run x = rivals(100, 100);
         due("owes nothing", x.oracleOf(0, 9), 0);
         due("nothing is owed to it", x.oracleOf(0, 10), 0);
@@ -287,7 +287,7 @@ public final class WhatThereIsEdgesTest extends TestBase {
     }
 
     private static void aliasesOfAll() {
-        about("Promise 12, aliases", "Counts the addresses of branches so far, other than one: all have come");
+        about("Promise 12, aliases", "Counts the addresses of branches so far, other than one", "all have come");
         Run x = tables();
         for (int address = 0; address <= 63; address++) {
             x.branch(address, address & 1);
@@ -379,7 +379,7 @@ public final class WhatThereIsEdgesTest extends TestBase {
     }
 
     private static void richPlaces() {
-        about("Promise 14, rich", "0 for the richest one, and so on; NOT_FOUND if there are not so many");
+        about("Promise 14, rich", "0 for the richest one, and so on .. NOT_FOUND if there are not so many");
         Run x = new Run();
         riches(x);
         x.oracle(0, 0, 0);

@@ -39,7 +39,7 @@ public final class WhatWouldBeEdgesTest extends TestBase {
     // ---- Promise 15
 
     private static void saysWithinRanges() {
-        about("Promise 15, says", "address: 0 to 63. Returns 1 or 0");
+        about("Promise 15, says", "address: 0 to 63 .. Returns 1 or 0");
         Run x = new Run();
         x.oracle(1, 5, 10);
         x.oracle(3, 5, 10);
@@ -90,7 +90,7 @@ public final class WhatWouldBeEdgesTest extends TestBase {
     }
 
     private static void stakeAtItsEnds() {
-        about("Promise 16, stake", "address: 0 to 63. Returns the stake");
+        about("Promise 16, stake", "address: 0 to 63 .. Returns the stake");
         Run x = new Run();
         x.oracle(1, 5, 9999);
         x.branch(63, 0);
@@ -130,7 +130,7 @@ public final class WhatWouldBeEdgesTest extends TestBase {
     }
 
     private static void oddsOfFewAndMany() {
-        about("Promise 17, odds", "the stakes of those that say 1, divided by all stakes: 1 of 251, and 250 of 251");
+        about("Promise 17, odds", "the stakes of those that say 1, divided by all stakes", "1 of 251, and 250 of 251");
         for (int word = 0; word <= 1; word++) {
             Run x = new Run();
             x.set(0, 50);
@@ -204,7 +204,7 @@ public final class WhatWouldBeEdgesTest extends TestBase {
     }
 
     private static void gainOfNothing() {
-        about("Promise 18, gain", "by how much the purse would change: not at all");
+        about("Promise 18, gain", "by how much the purse of an oracle would change by a branch", "not at all");
         Run x = new Run();
         x.oracle(0, 1, 50);
         x.oracle(0, 0, 50);
@@ -232,7 +232,7 @@ public final class WhatWouldBeEdgesTest extends TestBase {
     }
 
     private static void gainOfCreditors() {
-        about("Promise 18, gain", "by how much the purse of an oracle would change by a branch: with what is paid back");
+        about("Promise 18, gain", "by how much the purse of an oracle would change by a branch", "what is paid back");
         Run x = rivals(50, 50);
         x.oracle(0, 1, 100);
         x.lend(2, 0, 2);
@@ -298,7 +298,7 @@ public final class WhatWouldBeEdgesTest extends TestBase {
     }
 
     private static void doomByUnits() {
-        about("Promise 19, doom", "by how many branches of one address an oracle would be ruined: of 50 coins each");
+        about("Promise 19, doom", "by how many branches of one address .. an oracle would be ruined", "50 coins each");
         int[] purses = {1, 49, 50, 51, 100, 101, 4950, 4951, 5000, 5001};
         int[] wanted = {1, 1, 1, 2, 2, 3, 99, 100, 100, NOT_FOUND};
         for (int i = 0; i < purses.length; i++) {
@@ -309,7 +309,7 @@ public final class WhatWouldBeEdgesTest extends TestBase {
     }
 
     private static void doomOfWinners() {
-        about("Promise 19, doom", "NOT_FOUND if it would not be ruined: it wins, there is no bet, it has no seat");
+        about("Promise 19, doom", "NOT_FOUND if it would not be ruined by 100 of them", "it wins, no bet, no seat");
         Run x = rivals(1, 1);
         refused(x, "it wins", () -> x.doom(0, 0, 1), NOT_FOUND);
         refused(x, "the other one wins", () -> x.doom(1, 0, 0), NOT_FOUND);
@@ -320,7 +320,7 @@ public final class WhatWouldBeEdgesTest extends TestBase {
     }
 
     private static void doomOfTables() {
-        about("Promise 19, doom", "by how many branches an oracle would be ruined: a table learns meanwhile");
+        about("Promise 19, doom", "by how many branches of one address .. an oracle would be ruined", "a table learns");
         int[] purses = {10, 11, 15, 16};
         int[] wanted = {1, 2, 2, NOT_FOUND};
         for (int i = 0; i < purses.length; i++) {
@@ -335,7 +335,7 @@ public final class WhatWouldBeEdgesTest extends TestBase {
     }
 
     private static void doomPutOff() {
-        about("Promise 19, doom", "would be ruined: not by a branch that empties its purse, but whose winner pays back");
+        about("Promise 19, doom", "an oracle would be ruined", "not by a branch that empties its purse, but pays back");
         Run x = rivals(50, 15);
         x.lend(1, 0, 10);
         read(x, "5, 2 and 1 coins", () -> x.doom(1, 0, 1), 3);
@@ -386,7 +386,7 @@ public final class WhatWouldBeEdgesTest extends TestBase {
     }
 
     private static void bestRowWithoutBets() {
-        about("Promise 20, bestRow", "of several rows the one that comes first: all rows");
+        about("Promise 20, bestRow", "of several rows the one that comes first", "of all rows");
         Run x = rivals(50, 0);
         x.oracle(1, 5, 7);
         for (int times = 1; times <= 5; times++) {
@@ -443,7 +443,8 @@ public final class WhatWouldBeEdgesTest extends TestBase {
     }
 
     private static void countOfNoneAndAll() {
-        about("Promise 21, count", "oracles; that have a seat; that are ruined; bets; loans");
+        about("Promise 21, count", "0: oracles; 1: oracles that have a seat; 2: oracles that are ruined",
+                "none and all");
         Run x = new Run();
         for (int i = 0; i < 6; i++) {
             due("oracles", x.count(0), i);
@@ -472,7 +473,7 @@ public final class WhatWouldBeEdgesTest extends TestBase {
     }
 
     private static void countOfCoins() {
-        about("Promise 21, count", "coins of the house; coins in all purses and of the house");
+        about("Promise 21, count", "3: coins of the house; 4: coins in all purses and of the house");
         Run x = rivals(400, 400);
         x.oracle(3, 2, 333);
         x.oracle(2, 3, 222);
