@@ -1,5 +1,11 @@
 import com.sun.management.ThreadMXBean;
 import java.lang.management.ManagementFactory;
+import java.lang.reflect.Array;
+import java.lang.reflect.Field;
+import java.lang.reflect.Modifier;
+import java.util.Collections;
+import java.util.IdentityHashMap;
+import java.util.Set;
 
 /** What an object makes in its constructor is little, and its calls make nothing. */
 public final class RoomTest {
@@ -7,10 +13,13 @@ public final class RoomTest {
     private static final Checks CHECKS = new Checks();
     private static final String TEXT = "loop 5 9;cut 7;flip 63 40;";
 
+    private final Set<Object> objects = Collections.newSetFromMap(new IdentityHashMap<>());
+    private int fields;
+
     private RoomTest() {
     }
 
-    public static void main(String[] args) {
+    public static void main(String[] args) throws IllegalAccessException {
         CHECKS.about("room");
         // Twice ahead of the count: what the machine itself makes when code runs first is not the program's.
         callAll(new BranchBets());
@@ -25,7 +34,40 @@ public final class RoomTest {
         long made = THREADS.getCurrentThreadAllocatedBytes() - before;
         CHECKS.that("an object takes " + made + " bytes", made > 0 && made < 20000);
         CHECKS.due("oracles", y.count(0), 0);
+        held(y);
+        held(x);
         CHECKS.end();
+    }
+
+    /** As many as README.md says, also behind all calls. */
+    private static void held(BranchBets x) throws IllegalAccessException {
+        RoomTest room = new RoomTest();
+        room.add(x);
+        CHECKS.due("objects and arrays", room.objects.size(), 150);
+        CHECKS.due("fields and elements", room.fields, 1991);
+    }
+
+    private void add(Object object) throws IllegalAccessException {
+        if (object == null || !objects.add(object)) {
+            return;
+        }
+        if (object.getClass().isArray()) {
+            boolean ofObjects = !object.getClass().getComponentType().isPrimitive();
+            fields += Array.getLength(object);
+            for (int i = 0; ofObjects && i < Array.getLength(object); i++) {
+                add(Array.get(object, i));
+            }
+            return;
+        }
+        for (Field each : object.getClass().getDeclaredFields()) {
+            if (!Modifier.isStatic(each.getModifiers())) {
+                fields++;
+                each.setAccessible(true);
+                if (!each.getType().isPrimitive()) {
+                    add(each.get(object));
+                }
+            }
+        }
     }
 
     private static void callAll(BranchBets x) {
